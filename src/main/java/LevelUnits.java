@@ -482,8 +482,8 @@ public final class LevelUnits {
         /** Alike types have the same one. */
         int shape;
         int cells = NONE;
-        /** All its CELLS are 0 at first. */
-        boolean plain = true;
+        /** The values of its CELLS at first; null: all are 0. */
+        int[] firsts;
         /** The CELLS of an OBJECT of the type. */
         int size;
         Node next;
@@ -784,6 +784,7 @@ public final class LevelUnits {
         private int kind;
         int fault;
         private final int[] open = new int[4];
+        /** The operators of E's that wait for their operands: 8 times each, and how tightly it binds. */
         private final int[] waiting = new int[OPERATORS_ROOM];
         private int waitingTop;
         private Decl unit;
@@ -798,8 +799,8 @@ public final class LevelUnits {
         private Node lastNode;
         private Stat lastStat;
         Decl units;
-        Node nodes;
         Stat stats;
+        /** The first one of all types. */
         final Node root;
         final Node integer;
         final Node bool;
@@ -811,7 +812,6 @@ public final class LevelUnits {
             bool = new Node(T_BOOLEAN, 2, 0, null);
             root.next = integer;
             integer.next = bool;
-            nodes = root;
             lastNode = bool;
         }
 
@@ -849,14 +849,19 @@ public final class LevelUnits {
             if (kind != wanted) {
                 return false;
             }
-            advance();
+            at += at < in.tokens ? 1 : 0;
+            kind = in.kinds[at];
             return true;
         }
 
         private int takeName() {
+            if (kind != NAME) {
+                fail(2);
+                return NONE;
+            }
             int name = in.values[at];
-            take(NAME);
-            return fault == 0 ? name : NONE;
+            advance();
+            return name;
         }
 
         private void takeEndName(Decl d) {
@@ -866,20 +871,13 @@ public final class LevelUnits {
             take(NAME);
         }
 
-        /** Begins one more of a sort, unless it would be the 21st. */
-        private boolean enter(int sort) {
-            if (open[sort] >= DEEPEST) {
-                fail(3);
-                return false;
-            }
-            open[sort]++;
-            return true;
-        }
-
         private void takeOpening(int sign) {
             if (kind != sign) {
                 fail(2);
-            } else if (enter(SORT_BRACKETS)) {
+            } else if (open[SORT_BRACKETS] >= DEEPEST) {
+                fail(3);
+            } else {
+                open[SORT_BRACKETS]++;
                 advance();
             }
         }
@@ -918,47 +916,52 @@ public final class LevelUnits {
             kind = in.kinds[0];
             Decl last = null;
             for (int i = 0; i < UNITS_ROOM && (i == 0 || kind == INTERFACE || kind == MODULE); i++) {
-                Decl u = parseUnit(i);
+                boolean module = kind == MODULE;
+                line = in.lines[at];
+                take(module ? MODULE : INTERFACE);
+                unit = told(module ? D_MODULE : D_INTERFACE);
+                unit.number = i;
+                unit.unit = unit;
                 if (last == null) {
-                    units = u;
+                    units = unit;
                 } else {
-                    last.next = u;
+                    last.next = unit;
                 }
-                last = u;
+                last = unit;
+                lastTold = null;
+                take(';');
+                parseImports();
+                for (int j = 0; j < TAPE_ROOM && beginsDeclaration(); j++) {
+                    line = in.lines[at];
+                    if (kind == PROCEDURE) {
+                        parseProcedure();
+                    } else {
+                        parseDeclaration();
+                    }
+                    take(';');
+                }
+                if (module) {
+                    take(BEGIN);
+                    parseStatements(makeBody(unit));
+                }
+                take(END);
+                takeEndName(unit);
+                take('.');
             }
             if (kind != TEXT_END) {
                 fail(2);
             }
         }
 
-        private Decl parseUnit(int number) {
-            boolean module = kind == MODULE;
-            line = in.lines[at];
-            take(module ? MODULE : INTERFACE);
-            Decl u = told(module ? D_MODULE : D_INTERFACE);
-            u.number = number;
-            u.unit = u;
-            unit = u;
-            lastTold = null;
-            take(';');
-            if (accept(IMPORT)) {
+        private void parseImports() {
+            if (!accept(IMPORT)) {
+                return;
+            }
+            append(told(D_IMPORT));
+            for (int i = 0; i < TAPE_ROOM && accept(','); i++) {
                 append(told(D_IMPORT));
-                for (int i = 0; i < TAPE_ROOM && accept(','); i++) {
-                    append(told(D_IMPORT));
-                }
-                take(';');
             }
-            for (int i = 0; i < TAPE_ROOM && beginsDeclaration(); i++) {
-                parseDeclaration();
-            }
-            if (module) {
-                take(BEGIN);
-                parseBody(u);
-            }
-            take(END);
-            takeEndName(u);
-            take('.');
-            return u;
+            take(';');
         }
 
         private void append(Decl d) {
@@ -970,10 +973,10 @@ public final class LevelUnits {
             lastTold = d;
         }
 
-        private void parseBody(Decl owner) {
+        private Stat makeBody(Decl owner) {
             body = owner;
             owner.body = new Stat(P_PLAIN, line, null, owner);
-            parseStatements(owner.body);
+            return owner.body;
         }
 
         private boolean beginsDeclaration() {
@@ -981,26 +984,22 @@ public final class LevelUnits {
         }
 
         private void parseDeclaration() {
-            line = in.lines[at];
             int word = kind;
             advance();
             if (word == TYPE) {
                 parseTypeTold();
             } else if (word == REVEAL) {
                 parseReveal();
-            } else if (word == VAR) {
+            } else if (word == EXCEPTION) {
+                append(told(D_EXCEPTION));
+            } else {
                 Decl d = parseGroup(D_VAR, null);
                 for (int i = 0; i < TAPE_ROOM && d != null; i++) {
                     Decl following = d.next;
                     append(d);
                     d = following;
                 }
-            } else if (word == EXCEPTION) {
-                append(told(D_EXCEPTION));
-            } else {
-                parseProcedure();
             }
-            take(';');
         }
 
         private void parseTypeTold() {
@@ -1042,6 +1041,7 @@ public final class LevelUnits {
 
         private void parseProcedure() {
             int begin = line;
+            advance();
             Decl d = told(D_PROCEDURE);
             append(d);
             d.type = parseSignature();
@@ -1064,7 +1064,7 @@ public final class LevelUnits {
             }
             line = begin;
             take(BEGIN);
-            parseBody(d);
+            parseStatements(makeBody(d));
             d.endLine = in.lines[at];
             take(END);
             takeEndName(d);
@@ -1080,11 +1080,22 @@ public final class LevelUnits {
 
         /** NAME,, : TYPE; answers the first of those that it tells. In a SIGNATURE they are counted. */
         private Decl parseGroup(int declKind, Node signature) {
-            Decl first = toldInGroup(declKind, signature);
-            Decl last = first;
-            for (int i = 0; i < TAPE_ROOM && accept(','); i++) {
-                last.next = toldInGroup(declKind, signature);
-                last = last.next;
+            Decl first = null;
+            Decl last = null;
+            for (int i = 0; i < TAPE_ROOM && (i == 0 || accept(',')); i++) {
+                if (signature != null) {
+                    if (signature.lo >= FORMALS_ROOM) {
+                        fail(2);
+                    }
+                    signature.lo++;
+                }
+                Decl d = told(declKind);
+                if (last == null) {
+                    first = d;
+                } else {
+                    last.next = d;
+                }
+                last = d;
             }
             take(':');
             Node t = parseType();
@@ -1092,16 +1103,6 @@ public final class LevelUnits {
                 d.type = t;
             }
             return first;
-        }
-
-        private Decl toldInGroup(int declKind, Node signature) {
-            if (signature != null) {
-                if (signature.lo >= FORMALS_ROOM) {
-                    fail(2);
-                }
-                signature.lo++;
-            }
-            return told(declKind);
         }
 
         // types
@@ -1132,9 +1133,11 @@ public final class LevelUnits {
                 fail(2);
                 return integer;
             }
-            if (!enter(SORT_TYPES)) {
+            if (open[SORT_TYPES] >= DEEPEST) {
+                fail(3);
                 return integer;
             }
+            open[SORT_TYPES]++;
             Decl outer = holder;
             if (kind != NAME && kind != ARRAY && kind != RECORD) {
                 holder = null;
@@ -1368,9 +1371,11 @@ public final class LevelUnits {
             int outer = line;
             Stat s = new Stat(kind, in.lines[at], part, body);
             s.level = open[SORT_STATEMENTS];
-            if (!enter(SORT_STATEMENTS)) {
+            if (s.level >= DEEPEST) {
+                fail(3);
                 return s;
             }
+            open[SORT_STATEMENTS]++;
             if (lastStat == null) {
                 stats = s;
             } else {
@@ -1409,29 +1414,29 @@ public final class LevelUnits {
                     break;
                 case WHILE:
                 case LOCK:
-                    s.first = parseE();
+                    s.first = parseE(null);
                     take(DO);
                     parseStatements(makePart(s, null, P_PLAIN));
                     take(END);
                     break;
                 case RETURN:
-                    s.first = kind == ';' ? null : parseE();
+                    s.first = kind == ';' ? null : parseE(null);
                     break;
                 case RAISE:
                     s.use = qname();
                     takeOpening('(');
-                    s.first = parseE();
+                    s.first = parseE(null);
                     takeClosing(')');
                     break;
                 case WAIT:
-                    s.first = parseE();
+                    s.first = parseE(null);
                     take(',');
-                    s.second = parseE();
+                    s.second = parseE(null);
                     break;
                 case EXIT:
                     break;
                 default:
-                    s.first = parseE();
+                    s.first = parseE(null);
             }
         }
 
@@ -1449,7 +1454,7 @@ public final class LevelUnits {
             Stat last = null;
             for (int i = 0; i < TAPE_ROOM && (i == 0 || accept(ELSIF)); i++) {
                 last = makePart(s, last, P_PLAIN);
-                last.first = parseE();
+                last.first = parseE(null);
                 take(THEN);
                 parseStatements(last);
             }
@@ -1470,9 +1475,9 @@ public final class LevelUnits {
         private void parseFor(Stat s) {
             s.name = toldInSlot(s, D_FORNAME);
             take(BECOMES);
-            s.first = parseE();
+            s.first = parseE(null);
             take(TO);
-            s.second = parseE();
+            s.second = parseE(null);
             take(DO);
             parseStatements(makePart(s, null, P_PLAIN));
             take(END);
@@ -1502,7 +1507,7 @@ public final class LevelUnits {
         }
 
         private void parseTypecase(Stat s) {
-            s.first = parseE();
+            s.first = parseE(null);
             take(OF);
             Stat last = null;
             for (int i = 0; i < TAPE_ROOM && accept('|'); i++) {
@@ -1525,172 +1530,158 @@ public final class LevelUnits {
             take(ARROW);
         }
 
+        /** := , a CALL or a FORK. */
         private void parseAction(Stat s) {
-            s.place = parseWholePlace();
+            s.kind = BECOMES;
+            s.place = parsePlace();
             if (kind == '(') {
                 s.kind = '(';
                 s.first = s.place;
                 s.place = null;
-                parseParameters(s);
-                return;
-            }
-            take(BECOMES);
-            if (accept(FORK)) {
-                s.kind = FORK;
-                s.first = parseWholePlace();
-                parseParameters(s);
-                return;
-            }
-            s.kind = BECOMES;
-            if (kind != NAME) {
-                s.first = parseE();
-                return;
-            }
-            s.first = parseWholePlace();
-            if (kind == '(') {
-                s.kind = '(';
-                parseParameters(s);
             } else {
-                put(new Op(O_LOAD, 0, NONE, line));
-                parseOperators(true);
-            }
-        }
-
-        private void parseParameters(Stat s) {
-            takeOpening('(');
-            if (kind != ')') {
-                s.parameters = parseParameter();
-                Op last = s.parameters;
-                for (int i = 0; i < TAPE_ROOM && accept(','); i++) {
-                    last.next = parseParameter();
-                    last = last.next;
+                take(BECOMES);
+                s.kind = accept(FORK) ? FORK : BECOMES;
+                if (kind == NAME || s.kind == FORK) {
+                    s.first = parsePlace();
                 }
+                if (kind == '(' && s.first != null && s.kind == BECOMES) {
+                    s.kind = '(';
+                }
+            }
+            if (s.kind == BECOMES) {
+                s.first = parseE(s.first);
+                return;
+            }
+            takeOpening('(');
+            Op last = null;
+            for (int i = 0; i < TAPE_ROOM && (i == 0 ? kind != ')' : accept(',')); i++) {
+                Op p = new Op(O_PARAMETER, 0, NONE, line);
+                p.sub = parseE(null);
+                if (last == null) {
+                    s.parameters = p;
+                } else {
+                    last.next = p;
+                }
+                last = p;
             }
             takeClosing(')');
         }
 
-        private Op parseParameter() {
-            Op p = new Op(O_PARAMETER, 0, NONE, line);
-            p.sub = parseE();
-            return p;
-        }
-
         // expressions: their OPs in the order in which they are done
 
-        private void put(Op op) {
+        private void put(int opKind, int value, Node type) {
+            Op op = new Op(opKind, value, NONE, line);
+            op.type = type;
             if (tail != null) {
                 tail.next = op;
             }
             tail = op;
         }
 
-        private void putSign(int opKind) {
-            put(new Op(opKind, 0, NONE, line));
-        }
-
-        private Op parseWholePlace() {
-            Op start = new Op(O_START, 0, NONE, line);
-            tail = start;
-            parsePlace();
-            return start.next;
-        }
-
-        private Op parseE() {
-            Op start = new Op(O_START, 0, NONE, line);
-            tail = start;
-            parseOperators(false);
-            return start.next;
-        }
-
-        private void parsePlace() {
-            int begin = in.lines[at];
-            put(new Op(NAME, takeName(), NONE, begin));
+        /** A list of OPs of its own; `tail` is its last one then. */
+        private Op parsePlace() {
+            Op first = new Op(NAME, in.values[at], NONE, in.lines[at]);
+            tail = first;
+            take(NAME);
             for (int i = 0; i < TAPE_ROOM; i++) {
                 if (accept('.')) {
-                    put(new Op('.', takeName(), NONE, line));
+                    put('.', in.values[at], null);
+                    take(NAME);
                 } else if (kind == '[') {
                     takeOpening('[');
-                    parseOperators(false);
+                    parseInner();
                     takeClosing(']');
-                    putSign('[');
+                    put('[', 0, null);
                 } else if (accept('^')) {
-                    putSign('^');
+                    put('^', 0, null);
                 } else {
-                    return;
+                    break;
                 }
+            }
+            return first;
+        }
+
+        /** An E behind what the list has already. */
+        private void parseInner() {
+            Op behind = tail;
+            Op inner = parseE(null);
+            if (behind != null) {
+                behind.next = inner;
             }
         }
 
-        /** Operators wait until what binds less tightly comes; begun: the first operand is there. */
-        private void parseOperators(boolean begun) {
+        /** A list of its own, or behind a PLACE that is there: operators wait until one comes that binds no tighter. */
+        private Op parseE(Op begun) {
+            Op start = new Op(O_START, 0, NONE, line);
+            start.next = begun;
+            if (begun == null) {
+                tail = start;
+            } else {
+                put(O_LOAD, 0, null);
+            }
             int bottom = waitingTop;
-            boolean there = begun;
             for (int i = 0; i < TAPE_ROOM; i++) {
-                if (!there) {
+                if (i > 0 || begun == null) {
                     parsePrefixes(bottom);
                     parseOperand();
                 }
-                there = false;
                 int binds = kind == NOT ? 0 : binding(kind);
                 if (binds == 0) {
                     break;
                 }
                 putWaiting(bottom, binds == BINDS_RELATION ? binds + 1 : binds);
-                if (binds == BINDS_RELATION && waitingAbove(bottom) == BINDS_RELATION) {
+                if (binds == BINDS_RELATION && lastBinds(bottom) == BINDS_RELATION) {
                     fail(2);
                     break;
                 }
-                hold(kind);
+                await(kind, binds);
                 advance();
             }
             putWaiting(bottom, 0);
+            return start.next;
         }
 
         private void parsePrefixes(int bottom) {
             for (int i = 0; i < TAPE_ROOM && (kind == NOT || kind == '-'); i++) {
-                int above = waitingAbove(bottom);
+                int above = lastBinds(bottom);
+                if (kind == '-' ? above == BINDS_NEGATE : above > BINDS_NOT) {
+                    fail(2);
+                    return;
+                }
                 if (kind == '-') {
-                    if (above == BINDS_NEGATE) {
-                        fail(2);
-                        return;
-                    }
-                    hold(O_NEGATE);
+                    await(O_NEGATE, BINDS_NEGATE);
                 } else {
-                    if (above > BINDS_NOT) {
-                        fail(2);
+                    if (open[SORT_NOTS] >= DEEPEST) {
+                        fail(3);
                         return;
                     }
-                    if (!enter(SORT_NOTS)) {
-                        return;
-                    }
-                    hold(NOT);
+                    open[SORT_NOTS]++;
+                    await(NOT, BINDS_NOT);
                 }
                 advance();
             }
         }
 
-        private void hold(int operator) {
+        private void await(int operator, int binds) {
             if (waitingTop < OPERATORS_ROOM) {
-                waiting[waitingTop] = operator;
+                waiting[waitingTop] = operator << 3 | binds;
                 waitingTop++;
             }
         }
 
         /** How tightly the last waiting operator of this E binds, 0 if there is none. */
-        private int waitingAbove(int bottom) {
-            if (waitingTop <= bottom || waitingTop > OPERATORS_ROOM) {
-                return 0;
-            }
-            return binding(waiting[waitingTop - 1]);
+        private int lastBinds(int bottom) {
+            return waitingTop > bottom && waitingTop <= OPERATORS_ROOM ? waiting[waitingTop - 1] & 7 : 0;
         }
 
         private void putWaiting(int bottom, int binds) {
-            for (int i = 0; i < OPERATORS_ROOM && waitingTop > bottom && waitingAbove(bottom) >= binds; i++) {
-                waitingTop--;
-                if (waiting[waitingTop] == NOT) {
+            for (int i = waitingTop; i > bottom && (waiting[i - 1] & 7) >= binds; i--) {
+                waitingTop = i - 1;
+                int operator = waiting[waitingTop] >> 3;
+                if (operator == NOT) {
                     open[SORT_NOTS]--;
                 }
-                putSign(waiting[waitingTop]);
+                put(operator, 0, null);
             }
         }
 
@@ -1727,51 +1718,45 @@ public final class LevelUnits {
             int word = kind;
             switch (word) {
                 case NUMBER:
-                    put(new Op(NUMBER, in.values[at], NONE, line));
+                    put(NUMBER, in.values[at], null);
                     advance();
                     break;
                 case TRUE:
                 case FALSE:
                 case NIL:
-                    put(new Op(word, word == TRUE ? 1 : 0, NONE, line));
+                    put(word, word == TRUE ? 1 : 0, null);
                     advance();
                     break;
                 case NAME:
-                    parsePlace();
-                    putSign(O_LOAD);
+                    Op behind = tail;
+                    Op place = parsePlace();
+                    if (behind != null) {
+                        behind.next = place;
+                    }
+                    put(O_LOAD, 0, null);
                     break;
                 case '(':
                     takeOpening('(');
-                    parseOperators(false);
+                    parseInner();
                     takeClosing(')');
-                    putSign('(');
+                    put('(', 0, null);
                     break;
                 case NEW:
-                    advance();
-                    takeOpening('(');
-                    Op made = new Op(NEW, 0, NONE, line);
-                    made.type = parseType();
-                    put(made);
-                    takeClosing(')');
-                    break;
                 case ISTYPE:
                 case NARROW:
-                    parseTested(word);
+                    advance();
+                    takeOpening('(');
+                    if (word != NEW) {
+                        parseInner();
+                        take(',');
+                    }
+                    Node t = parseType();
+                    put(word, 0, t);
+                    takeClosing(')');
                     break;
                 default:
                     fail(2);
             }
-        }
-
-        private void parseTested(int word) {
-            advance();
-            takeOpening('(');
-            parseOperators(false);
-            take(',');
-            Op op = new Op(word, 0, NONE, line);
-            op.type = parseType();
-            put(op);
-            takeClosing(')');
         }
     }
 
@@ -1796,7 +1781,7 @@ public final class LevelUnits {
                     judgeDeclaration(u, d);
                 }
             }
-            for (Node n = text.nodes; n != null; n = n.next) {
+            for (Node n = text.root; n != null; n = n.next) {
                 judgeNode(n);
             }
             for (Stat s = text.stats; s != null; s = s.nextOfAll) {
@@ -2063,7 +2048,7 @@ public final class LevelUnits {
             bool = text.bool;
             nil = new Node(T_NIL, NONE, 0, null);
             nil.shape = NONE;
-            nodes = text.nodes;
+            nodes = text.root;
             nodeCount = text.nodeCount();
             int units = 0;
             int types = 0;
@@ -2372,20 +2357,15 @@ public final class LevelUnits {
         /** Whether each EXCEPTION of the SET `a` is in the SET `b`. */
         static boolean isWithin(Op a, Op b) {
             for (Op one = a; one != null; one = one.next) {
-                if (!isIn(one.decl, b)) {
+                Op other = b;
+                while (other != null && other.decl != one.decl) {
+                    other = other.next;
+                }
+                if (other == null) {
                     return false;
                 }
             }
             return true;
-        }
-
-        static boolean isIn(Decl exception, Op set) {
-            for (Op one = set; one != null; one = one.next) {
-                if (one.decl == exception) {
-                    return true;
-                }
-            }
-            return false;
         }
 
         /** Whether the FORMALs from `d` and `e` on are alike one by one. */
@@ -2446,6 +2426,7 @@ public final class LevelUnits {
             for (Node n = nodes; n != null; n = n.next) {
                 if (n.cells == NONE && n.real == n && n.kind != T_NAMED) {
                     n.cells = cellsOf(n);
+                    n.firsts = firstsOf(n);
                     more |= n.cells != NONE;
                 }
             }
@@ -2453,16 +2434,11 @@ public final class LevelUnits {
         }
 
         private static int cellsOf(Node n) {
-            if (n.kind == T_RANGE) {
-                n.plain = n.lo <= 0 && n.hi >= 0;
-                return 1;
-            }
             if (n.kind == T_ARRAY) {
                 Node elem = n.elem.real;
                 if (n.lo > n.hi || elem.cells == NONE) {
                     return NONE;
                 }
-                n.plain = elem.plain;
                 return (int) Math.min(MANY, ((long) n.hi - n.lo + 1) * elem.cells);
             }
             if (n.kind != T_RECORD) {
@@ -2476,9 +2452,37 @@ public final class LevelUnits {
                 }
                 d.offset = (int) Math.min(MANY, all);
                 all += part.cells;
-                n.plain &= part.plain;
             }
             return (int) Math.min(MANY, all);
+        }
+
+        /** What its CELLS are at first, put together from its parts; null if all are 0, or it has too many. */
+        private static int[] firstsOf(Node n) {
+            if (n.cells < 1 || n.cells > PARTS_ROOM) {
+                return null;
+            }
+            int[] firsts = null;
+            if (n.kind == T_RANGE && (n.lo > 0 || n.hi < 0)) {
+                firsts = new int[1];
+                firsts[0] = n.lo > 0 ? n.lo : n.hi;
+            } else if (n.kind == T_ARRAY && n.elem.real.firsts != null) {
+                int[] each = n.elem.real.firsts;
+                firsts = new int[n.cells];
+                for (int at = 0; at + each.length <= n.cells && each.length > 0; at += each.length) {
+                    System.arraycopy(each, 0, firsts, at, each.length);
+                }
+            } else if (n.kind == T_RECORD) {
+                for (Decl d = n.items; d != null; d = d.next) {
+                    int[] part = d.type.real.firsts;
+                    if (part != null && firsts == null) {
+                        firsts = new int[n.cells];
+                    }
+                    if (part != null && d.offset + part.length <= n.cells) {
+                        System.arraycopy(part, 0, firsts, d.offset, part.length);
+                    }
+                }
+            }
+            return firsts;
         }
 
         // the second round
@@ -2747,59 +2751,56 @@ public final class LevelUnits {
         }
 
         private void judgeStatement(Stat s) {
+            boolean call = s.kind == '(' || s.kind == FORK;
+            s.type = s.place == null ? null : typeOf(s.place, false);
+            Node value = typeOf(s.first, call);
+            s.name = call ? method : s.name;
+            Node second = typeOf(s.second, false);
             switch (s.kind) {
                 case BECOMES:
-                    judgeBecomes(s);
+                    s.type = target(s.place, s.type);
+                    needAssignable(value, s.type);
                     break;
                 case '(':
                 case FORK:
-                    judgeCall(s);
+                    s.type = target(s.place, s.type);
+                    judgeCall(s, value);
                     break;
                 case EXIT:
                     if (!isInLoop(s)) {
                         fault(14);
                     }
                     break;
-                case IF:
-                    for (Stat p = s.parts; p != null; p = p.next) {
-                        if (p.first != null) {
-                            needKind(typeOf(p.first, false), T_BOOLEAN);
-                        }
-                    }
-                    break;
-                case WHILE:
-                    needKind(typeOf(s.first, false), T_BOOLEAN);
-                    break;
-                case FOR:
-                    needKind(typeOf(s.first, false), T_INTEGER);
-                    needKind(typeOf(s.second, false), T_INTEGER);
-                    break;
                 case RETURN:
-                    judgeReturn(s);
-                    break;
-                case RAISE:
-                case PUT:
-                    needKind(typeOf(s.first, false), T_INTEGER);
-                    break;
-                case LOCK:
-                    needKind(typeOf(s.first, false), T_MUTEX);
-                    break;
-                case WAIT:
-                    needKind(typeOf(s.first, false), T_MUTEX);
-                    needKind(typeOf(s.second, false), T_CONDITION);
-                    break;
-                case SIGNAL:
-                case BROADCAST:
-                    needKind(typeOf(s.first, false), T_CONDITION);
-                    break;
-                case JOIN:
-                    needKind(typeOf(s.first, false), T_THREAD);
+                    judgeReturn(s, value);
                     break;
                 case TYPECASE:
-                    judgeTypecase(s);
+                    judgeTypecase(s, value);
                     break;
                 default:
-                    break;
+                    needKind(value, kindOfE(s.kind));
+                    needKind(second, s.kind == WAIT ? T_CONDITION : T_INTEGER);
+            }
+            for (Stat p = s.parts; p != null; p = p.next) {
+                needKind(typeOf(p.first, false), T_BOOLEAN);
+            }
+        }
+
+        /** What a STATEMENT's (first) E is to be. */
+        private static int kindOfE(int statement) {
+            switch (statement) {
+                case WHILE:
+                    return T_BOOLEAN;
+                case LOCK:
+                case WAIT:
+                    return T_MUTEX;
+                case SIGNAL:
+                case BROADCAST:
+                    return T_CONDITION;
+                case JOIN:
+                    return T_THREAD;
+                default:
+                    return T_INTEGER;
             }
         }
 
@@ -2826,8 +2827,7 @@ public final class LevelUnits {
             return false;
         }
 
-        private void judgeReturn(Stat s) {
-            Node value = s.first == null ? null : typeOf(s.first, false);
+        private void judgeReturn(Stat s, Node value) {
             if (s.decl.kind != D_PROCEDURE) {
                 fault(14);
                 return;
@@ -2840,8 +2840,7 @@ public final class LevelUnits {
             }
         }
 
-        private void judgeTypecase(Stat s) {
-            Node value = typeOf(s.first, false);
+        private void judgeTypecase(Stat s, Node value) {
             if (value != null && value.kind != T_NIL && !isObject(value)) {
                 fault(12);
             }
@@ -2897,8 +2896,7 @@ public final class LevelUnits {
         }
 
         /** The type of a PLACE to which something goes. */
-        private Node typeOfTarget(Op place) {
-            Node t = typeOf(place, false);
+        private Node target(Op place, Node t) {
             if (isFixedName(place)) {
                 fault(14);
                 return null;
@@ -2906,38 +2904,28 @@ public final class LevelUnits {
             return t;
         }
 
-        private void judgeBecomes(Stat s) {
-            s.type = typeOfTarget(s.place);
-            needAssignable(typeOf(s.first, false), s.type);
-        }
-
-        private void judgeCall(Stat s) {
-            if (s.place != null) {
-                s.type = typeOfTarget(s.place);
-            }
-            Node signature = typeOf(s.first, true);
-            s.name = method;
-            if (signature != null && signature.kind != T_PROCEDURE) {
+        private void judgeCall(Stat s, Node called) {
+            Node signature = called != null && called.kind == T_PROCEDURE ? called : null;
+            if (called != null && signature == null) {
                 fault(12);
-                signature = null;
             }
             if (s.kind == FORK) {
                 needKind(s.type, T_THREAD);
             } else if (signature != null) {
                 s.use = signature.raises;
-            }
-            if (s.kind != FORK && s.place != null && signature != null) {
-                if (signature.elem == null) {
+                if (s.place != null && signature.elem == null) {
                     fault(12);
-                } else {
+                } else if (s.place != null) {
                     needAssignable(signature.elem.real, s.type);
                 }
             }
             Decl formal = signature == null ? null : signature.items;
-            Op p = s.parameters;
-            for (; p != null; p = p.next) {
+            for (Op p = s.parameters; p != null; p = p.next) {
                 Node value = typeOf(p.sub, false);
                 if (formal != null) {
+                    if (s.kind == FORK && formal.kind == D_VARFORMAL) {
+                        fault(14);
+                    }
                     judgeParameter(p.sub, value, formal);
                     formal = formal.next;
                 } else if (signature != null) {
@@ -2946,11 +2934,6 @@ public final class LevelUnits {
             }
             if (formal != null) {
                 fault(13);
-            }
-            for (Decl d = signature == null ? null : signature.items; d != null; d = d.next) {
-                if (s.kind == FORK && d.kind == D_VARFORMAL) {
-                    fault(14);
-                }
             }
         }
 
@@ -2997,63 +2980,52 @@ public final class LevelUnits {
             top = 0;
             method = null;
             for (Op op = list; op != null; op = op.next) {
-                judgeOp(op, called && op.next == null);
+                switch (op.kind) {
+                    case NUMBER:
+                        push(types.integer);
+                        break;
+                    case TRUE:
+                    case FALSE:
+                        push(types.bool);
+                        break;
+                    case NIL:
+                        push(types.nil);
+                        break;
+                    case NAME:
+                        judgeName(op);
+                        break;
+                    case '.':
+                        judgeMember(op, pop(), called && op.next == null);
+                        break;
+                    case '[':
+                    case '^':
+                        judgeInside(op);
+                        break;
+                    case O_LOAD:
+                        Node t = pop();
+                        op.kind = t != null && hasParts(t) ? O_KEEP : O_LOAD;
+                        push(t);
+                        break;
+                    case '=':
+                    case '#':
+                        judgeEqual(pop(), pop());
+                        break;
+                    case NEW:
+                        judgeNew(op.type.real);
+                        break;
+                    case ISTYPE:
+                    case NARROW:
+                        needRelated(pop(), op.type.real);
+                        push(op.kind == ISTYPE ? types.bool : op.type.real);
+                        break;
+                    case '(':
+                    case O_KEEP:
+                        break;
+                    default:
+                        judgeOperator(op.kind);
+                }
             }
             return pop();
-        }
-
-        private void judgeOp(Op op, boolean calledNext) {
-            switch (op.kind) {
-                case NUMBER:
-                    push(types.integer);
-                    break;
-                case TRUE:
-                case FALSE:
-                    push(types.bool);
-                    break;
-                case NIL:
-                    push(types.nil);
-                    break;
-                case NAME:
-                    judgeName(op);
-                    break;
-                case '.':
-                    judgeMember(op, pop(), calledNext);
-                    break;
-                case '[':
-                    judgeIndex(op);
-                    break;
-                case '^':
-                    Node ref = pop();
-                    needKind(ref, T_REF);
-                    push(ref != null && ref.kind == T_REF ? ref.elem.real : null);
-                    break;
-                case O_LOAD:
-                    Node t = pop();
-                    if (t != null && hasParts(t)) {
-                        op.kind = O_KEEP;
-                    }
-                    push(t);
-                    break;
-                case NOT:
-                    needKind(pop(), T_BOOLEAN);
-                    push(types.bool);
-                    break;
-                case O_NEGATE:
-                    needKind(pop(), T_INTEGER);
-                    push(types.integer);
-                    break;
-                case NEW:
-                case ISTYPE:
-                case NARROW:
-                    judgeTyped(op);
-                    break;
-                case '(':
-                case O_KEEP:
-                    break;
-                default:
-                    judgeBinary(op.kind);
-            }
         }
 
         private void judgeName(Op op) {
@@ -3096,74 +3068,53 @@ public final class LevelUnits {
             }
         }
 
-        private void judgeIndex(Op op) {
-            needKind(pop(), T_INTEGER);
-            Node array = pop();
-            if (array == null || array.kind != T_ARRAY) {
-                needKind(array, T_ARRAY);
-                push(null);
+        /** [ E ] behind an ARRAY, ^ behind a REF. */
+        private void judgeInside(Op op) {
+            int wanted = op.kind == '[' ? T_ARRAY : T_REF;
+            if (wanted == T_ARRAY) {
+                needKind(pop(), T_INTEGER);
+            }
+            Node t = pop();
+            needKind(t, wanted);
+            op.type = t;
+            push(t != null && t.kind == wanted ? t.elem.real : null);
+        }
+
+        private void judgeNew(Node t) {
+            boolean hidden = t.kind == T_OPAQUE && types.levelOf(unit, t) == null;
+            boolean made = isObject(t) || t.kind == T_REF || t.kind == T_MUTEX || t.kind == T_CONDITION;
+            if (hidden || !made) {
+                fault(12);
+            }
+            push(hidden || !made ? null : t);
+        }
+
+        /** Operators of BOOLEANs alone or INTEGERs alone. */
+        private void judgeOperator(int operator) {
+            boolean logic = operator == OR || operator == AND || operator == NOT;
+            int wanted = logic ? T_BOOLEAN : T_INTEGER;
+            needKind(pop(), wanted);
+            if (operator != NOT && operator != O_NEGATE) {
+                needKind(pop(), wanted);
+            }
+            boolean order = operator == '<' || operator == '>' || operator == AT_MOST || operator == AT_LEAST;
+            push(logic || order ? types.bool : types.integer);
+        }
+
+        private void judgeEqual(Node a, Node b) {
+            push(types.bool);
+            if (a == null || b == null || isNumber(a) && isNumber(b)) {
                 return;
             }
-            op.type = array;
-            push(array.elem.real);
-        }
-
-        private void judgeTyped(Op op) {
-            Node t = op.type.real;
-            if (op.kind == NEW) {
-                boolean hidden = t.kind == T_OPAQUE && types.levelOf(unit, t) == null;
-                if (hidden || !isObject(t) && t.kind != T_REF && t.kind != T_MUTEX && t.kind != T_CONDITION) {
-                    fault(12);
-                    t = null;
-                }
-                push(t);
-                return;
+            boolean nilA = a.kind == T_NIL;
+            boolean nilB = b.kind == T_NIL;
+            boolean fits = a.kind == T_BOOLEAN && b.kind == T_BOOLEAN;
+            if ((nilA || isReference(a)) && (nilB || isReference(b))) {
+                fits = nilA || nilB || types.isBelow(unit, a, b) || types.isBelow(unit, b, a);
             }
-            needRelated(pop(), t);
-            push(op.kind == ISTYPE ? types.bool : t);
-        }
-
-        private void judgeBinary(int operator) {
-            Node b = pop();
-            Node a = pop();
-            switch (operator) {
-                case OR:
-                case AND:
-                    needKind(a, T_BOOLEAN);
-                    needKind(b, T_BOOLEAN);
-                    push(types.bool);
-                    break;
-                case '=':
-                case '#':
-                    if (a != null && b != null && !isComparable(a, b)) {
-                        fault(12);
-                    }
-                    push(types.bool);
-                    break;
-                case '<':
-                case '>':
-                case AT_MOST:
-                case AT_LEAST:
-                    needKind(a, T_INTEGER);
-                    needKind(b, T_INTEGER);
-                    push(types.bool);
-                    break;
-                default:
-                    needKind(a, T_INTEGER);
-                    needKind(b, T_INTEGER);
-                    push(types.integer);
+            if (!fits) {
+                fault(12);
             }
-        }
-
-        private boolean isComparable(Node a, Node b) {
-            if (isNumber(a) && isNumber(b) || a.kind == T_BOOLEAN && b.kind == T_BOOLEAN) {
-                return true;
-            }
-            boolean oneNil = a.kind == T_NIL || b.kind == T_NIL;
-            if (!isReference(a) && a.kind != T_NIL || !isReference(b) && b.kind != T_NIL) {
-                return false;
-            }
-            return oneNil || types.isBelow(unit, a, b) || types.isBelow(unit, b, a);
         }
 
         // the fourth round
@@ -3201,7 +3152,14 @@ public final class LevelUnits {
                 }
                 part = owner.home;
             }
-            if (s.decl.kind == D_PROCEDURE && !Types.isIn(exception.decl, s.decl.type.raises)) {
+            if (s.decl.kind != D_PROCEDURE) {
+                return;
+            }
+            Op named = s.decl.type.raises;
+            while (named != null && named.decl != exception.decl) {
+                named = named.next;
+            }
+            if (named == null) {
                 fault(15);
             }
         }
@@ -3317,6 +3275,8 @@ public final class LevelUnits {
         private int top;
         /** The parameters of the call that comes. */
         private final int[] passed = new int[FORMALS_ROOM * PARTS_ROOM];
+        /** Made by the STEP that is done, and not yet ahead of an ACT. */
+        private Strand forked;
         private int fault;
         private int faultLine;
 
@@ -3348,6 +3308,18 @@ public final class LevelUnits {
             Strand k = newStrand();
             goToUnit(k, 0);
             goOn(k);
+        }
+
+        /** The values that the CELLS of a place have at first. */
+        private static void fill(int[] row, int at, Node t) {
+            if (at < 0 || t.cells < 0 || at > row.length - t.cells) {
+                return;
+            }
+            if (t.firsts == null) {
+                Arrays.fill(row, at, at + t.cells, 0);
+            } else if (t.firsts.length == t.cells) {
+                System.arraycopy(t.firsts, 0, row, at, t.cells);
+            }
         }
 
         /** The STATEMENTS of the first MODULE from the unit on; without one the thread is over. */
@@ -3383,30 +3355,58 @@ public final class LevelUnits {
 
         int doSteps(int n) {
             int done = 0;
-            while (done < n && doStep()) {
+            int ready = countReady();
+            while (done < n && ready > 0) {
+                seed = seed * 1103515245 + 12345;
+                int k = (seed >>> 16) % ready;
+                for (int i = 0; i < made && k >= 0; i++) {
+                    if (isReady(strands[i])) {
+                        if (k == 0) {
+                            doStep(strands[i]);
+                        }
+                        k--;
+                    }
+                }
                 done++;
+                ready = countReady();
             }
             return done;
         }
 
-        private boolean doStep() {
-            int ready = countReady();
-            if (ready == 0) {
-                return false;
-            }
-            seed = seed * 1103515245 + 12345;
-            int k = (seed >>> 16) % ready;
+        private void doStep(Strand k) {
             steps++;
-            for (int i = 0; i < made; i++) {
-                if (isReady(strands[i])) {
-                    if (k == 0) {
-                        act(strands[i]);
-                        return true;
-                    }
-                    k--;
-                }
+            fault = 0;
+            forked = null;
+            faultLine = k.stat == null ? 0 : k.stat.line;
+            if (k.stat == null) {
+                return;
             }
-            return true;
+            if (k.state == READY) {
+                act(k, k.stat);
+            } else {
+                stopWaiting(k);
+            }
+            if (fault != 0) {
+                endByFault(k);
+                return;
+            }
+            if (forked != null) {
+                goOn(forked);
+            }
+            if (k.state == READY) {
+                goOn(k);
+            }
+        }
+
+        private void stopWaiting(Strand k) {
+            int mutex = k.state == WAITS_MUTEX ? k.waitsFor : 0;
+            k.state = READY;
+            k.waitsFor = 0;
+            if (mutex != 0) {
+                takeMutex(k, k.stat, mutex);
+            } else {
+                k.goBehind(k.stat);
+            }
         }
 
         private int countReady() {
@@ -3441,32 +3441,6 @@ public final class LevelUnits {
             }
         }
 
-        private void act(Strand k) {
-            Stat s = k.stat;
-            if (s == null) {
-                return;
-            }
-            fault = 0;
-            faultLine = s.line;
-            if (k.state == WAITS_MUTEX) {
-                int mutex = k.waitsFor;
-                k.state = READY;
-                k.waitsFor = 0;
-                takeMutex(k, s, mutex);
-            } else if (k.state == WAITS_THREAD) {
-                k.state = READY;
-                k.waitsFor = 0;
-                k.goBehind(s);
-            } else {
-                doStatement(k, s);
-            }
-            if (fault == 0 && k.state == READY) {
-                goOn(k);
-            } else if (fault != 0) {
-                endByFault(k);
-            }
-        }
-
         private void endByFault(Strand k) {
             k.end(FAILED);
             k.exception = fault;
@@ -3492,7 +3466,7 @@ public final class LevelUnits {
             }
         }
 
-        private void doStatement(Strand k, Stat s) {
+        private void act(Strand k, Stat s) {
             switch (s.kind) {
                 case BECOMES:
                     int place = worth(k, s.place);
@@ -3572,7 +3546,7 @@ public final class LevelUnits {
                     k.goInto(p);
                     return;
                 }
-                if (value == 0 || isOf(value, p.type.real)) {
+                if (isOf(value, p.type.real)) {
                     k.setSlot(p.name.offset, value);
                     k.goInto(p);
                     return;
@@ -3686,16 +3660,18 @@ public final class LevelUnits {
                 openCall(k, s, target, procedure);
                 return;
             }
-            Strand fresh = newStrand();
-            openCall(fresh, null, 0, procedure);
-            goOn(fresh);
-            store(k, target, fresh.number + 1);
+            forked = newStrand();
+            openCall(forked, null, 0, procedure);
+            store(k, target, forked.number + 1);
             k.goBehind(s);
         }
 
         /** The number of the PROCEDURE that is called; of a METHOD the object is the first parameter. */
         private int calledProcedure(Strand k, Stat s) {
             int value = worth(k, s.first);
+            if (fault == 0 && s.name != null && value == 0) {
+                fail(F_NIL);
+            }
             if (fault != 0) {
                 return 0;
             }
@@ -3919,7 +3895,10 @@ public final class LevelUnits {
             goToCaller(k, caller);
             if (caller != null && caller.place != null) {
                 faultLine = caller.line;
-                assign(k, k.targets[k.calls + 1], caller.type, k.amount);
+                int value = holdAgainst(k.amount, caller.type);
+                if (fault == 0) {
+                    store(k, k.targets[k.calls + 1], value);
+                }
             }
         }
 
@@ -3972,61 +3951,22 @@ public final class LevelUnits {
             }
         }
 
-        private void holdAgainst(int value, Node t) {
+        private int holdAgainst(int value, Node t) {
             if (t.kind == T_RANGE && (value < t.lo || value > t.hi)) {
                 fail(F_RANGE);
-            } else if (isObject(t) && value != 0 && !isOf(value, t)) {
+            } else if (isObject(t) && !isOf(value, t)) {
                 fail(F_TYPE);
             }
+            return value;
         }
 
+        /** Whether the object is of the type; NIL is. */
         private boolean isOf(int object, Node t) {
             Node c = object > 0 && object <= things ? kinds[object] : null;
-            for (; c != null; c = c.up) {
-                if (c.shape == t.shape) {
-                    return true;
-                }
+            while (c != null && c.shape != t.shape) {
+                c = c.up;
             }
-            return false;
-        }
-
-        /** The values that the CELLS of a place have at first. */
-        private void fill(int[] row, int at, Node t) {
-            int end = at + t.cells;
-            if (at < 0 || end > row.length) {
-                return;
-            }
-            if (t.plain) {
-                Arrays.fill(row, at, end, 0);
-                return;
-            }
-            for (int i = at; i < end; i++) {
-                Node leaf = leafAt(t, i - at);
-                row[i] = leaf.kind != T_RANGE || leaf.plain ? 0 : leaf.lo > 0 ? leaf.lo : leaf.hi;
-            }
-        }
-
-        /** The type of one CELL of an ARRAY or RECORD. */
-        private static Node leafAt(Node t, int cell) {
-            Node at = t;
-            int left = cell;
-            for (int i = 0; i < TAPE_ROOM && hasParts(at); i++) {
-                if (at.kind == T_ARRAY) {
-                    at = at.elem.real;
-                    left = at.cells > 0 ? left % at.cells : 0;
-                } else {
-                    Decl d = at.items;
-                    while (d != null && left >= d.offset + d.type.real.cells) {
-                        d = d.next;
-                    }
-                    if (d == null) {
-                        return at;
-                    }
-                    left -= d.offset;
-                    at = d.type.real;
-                }
-            }
-            return at;
+            return c != null || object == 0;
         }
 
         // E's and PLACEs: a PLACE is worth where it is, what has many CELLS, too
@@ -4034,7 +3974,53 @@ public final class LevelUnits {
         private int worth(Strand k, Op list) {
             top = 0;
             for (Op op = list; op != null && fault == 0; op = op.next) {
-                doOp(k, op);
+                switch (op.kind) {
+                    case NUMBER:
+                    case TRUE:
+                    case FALSE:
+                    case NIL:
+                        push(op.name);
+                        break;
+                    case NAME:
+                        push(placeOf(k, op.decl));
+                        break;
+                    case '.':
+                        push(pop() + op.decl.offset);
+                        break;
+                    case O_INSIDE:
+                        push(insideOf(fetch(k, pop())) + op.decl.offset);
+                        break;
+                    case '^':
+                        push(insideOf(fetch(k, pop())));
+                        break;
+                    case '[':
+                        pushElement(op.type);
+                        break;
+                    case O_METHOD:
+                    case O_LOAD:
+                        push(fetch(k, pop()));
+                        break;
+                    case O_KEEP:
+                    case '(':
+                        break;
+                    case NEW:
+                        push(makeThing(op.type.real));
+                        break;
+                    case ISTYPE:
+                        push(isOf(pop(), op.type.real) ? 1 : 0);
+                        break;
+                    case NARROW:
+                        push(holdAgainst(pop(), op.type.real));
+                        break;
+                    case NOT:
+                        push(1 - pop());
+                        break;
+                    case O_NEGATE:
+                        pushNumber(-(long) pop());
+                        break;
+                    default:
+                        pushNumber(operate(op.kind, pop(), pop()));
+                }
             }
             return pop();
         }
@@ -4052,63 +4038,6 @@ public final class LevelUnits {
             }
             top--;
             return values[top];
-        }
-
-        private void doOp(Strand k, Op op) {
-            switch (op.kind) {
-                case NUMBER:
-                case TRUE:
-                case FALSE:
-                case NIL:
-                    push(op.name);
-                    break;
-                case NAME:
-                    push(placeOf(k, op.decl));
-                    break;
-                case '.':
-                    push(pop() + op.decl.offset);
-                    break;
-                case O_INSIDE:
-                    push(insideOf(fetch(k, pop())) + op.decl.offset);
-                    break;
-                case '^':
-                    push(insideOf(fetch(k, pop())));
-                    break;
-                case O_METHOD:
-                    int object = fetch(k, pop());
-                    insideOf(object);
-                    push(object);
-                    break;
-                case '[':
-                    doIndex(op.type);
-                    break;
-                case O_LOAD:
-                    push(fetch(k, pop()));
-                    break;
-                case O_KEEP:
-                case '(':
-                    break;
-                case NEW:
-                    push(makeThing(op.type.real));
-                    break;
-                case ISTYPE:
-                    int tested = pop();
-                    push(tested == 0 || isOf(tested, op.type.real) ? 1 : 0);
-                    break;
-                case NARROW:
-                    int narrowed = pop();
-                    holdAgainst(narrowed, op.type.real);
-                    push(narrowed);
-                    break;
-                case NOT:
-                    push(1 - pop());
-                    break;
-                case O_NEGATE:
-                    pushNumber(-(long) pop());
-                    break;
-                default:
-                    doBinary(op.kind);
-            }
         }
 
         private int placeOf(Strand k, Decl d) {
@@ -4138,13 +4067,15 @@ public final class LevelUnits {
             return (ROW_HEAP << ROW_SHIFT) + starts[v];
         }
 
-        private void doIndex(Node array) {
+        private void pushElement(Node array) {
             int i = pop();
             int place = pop();
             if (i < array.lo || i > array.hi) {
                 fail(F_INDEX);
+                push(place);
+            } else {
+                push(place + (i - array.lo) * array.elem.real.cells);
             }
-            push(place + (i - array.lo) * array.elem.real.cells);
         }
 
         private void pushNumber(long value) {
@@ -4154,57 +4085,39 @@ public final class LevelUnits {
             push((int) value);
         }
 
-        private void doBinary(int operator) {
-            int b = pop();
-            int a = pop();
+        /** Of two values, the last one first. */
+        private long operate(int operator, int b, int a) {
             switch (operator) {
                 case OR:
-                    push(a | b);
-                    break;
+                    return a | b;
                 case AND:
-                    push(a & b);
-                    break;
+                    return a & b;
                 case '=':
-                    push(a == b ? 1 : 0);
-                    break;
+                    return a == b ? 1 : 0;
                 case '#':
-                    push(a != b ? 1 : 0);
-                    break;
+                    return a != b ? 1 : 0;
                 case '<':
-                    push(a < b ? 1 : 0);
-                    break;
+                    return a < b ? 1 : 0;
                 case '>':
-                    push(a > b ? 1 : 0);
-                    break;
+                    return a > b ? 1 : 0;
                 case AT_MOST:
-                    push(a <= b ? 1 : 0);
-                    break;
+                    return a <= b ? 1 : 0;
                 case AT_LEAST:
-                    push(a >= b ? 1 : 0);
-                    break;
+                    return a >= b ? 1 : 0;
                 case '+':
-                    pushNumber((long) a + b);
-                    break;
+                    return (long) a + b;
                 case '-':
-                    pushNumber((long) a - b);
-                    break;
+                    return (long) a - b;
                 case '*':
-                    pushNumber((long) a * b);
-                    break;
+                    return (long) a * b;
                 default:
-                    doDivision(operator, a, b);
+                    break;
             }
-        }
-
-        private void doDivision(int operator, int a, int b) {
             if (b == 0) {
                 fail(F_DIVISOR);
-                push(0);
-            } else if (operator == DIV) {
-                pushNumber(Math.floorDiv((long) a, (long) b));
-            } else {
-                push((int) Math.floorMod((long) a, (long) b));
+                return 0;
             }
+            return operator == DIV ? Math.floorDiv((long) a, (long) b) : Math.floorMod((long) a, (long) b);
         }
 
         private int makeThing(Node t) {
