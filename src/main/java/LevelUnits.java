@@ -391,7 +391,11 @@ public final class LevelUnits {
         if (!machine.begun()) {
             throw new IllegalStateException("no run has begun");
         }
-        return machine.doSteps(n);
+        int done = 0;
+        while (done < n && machine.doStep()) {
+            done++;
+        }
+        return done;
     }
 
     public int output(int i) {
@@ -1414,29 +1418,29 @@ public final class LevelUnits {
                     break;
                 case WHILE:
                 case LOCK:
-                    s.first = parseE(null);
+                    s.first = parseE(null, false);
                     take(DO);
                     parseStatements(makePart(s, null, P_PLAIN));
                     take(END);
                     break;
                 case RETURN:
-                    s.first = kind == ';' ? null : parseE(null);
+                    s.first = kind == ';' ? null : parseE(null, false);
                     break;
                 case RAISE:
                     s.use = qname();
                     takeOpening('(');
-                    s.first = parseE(null);
+                    s.first = parseE(null, false);
                     takeClosing(')');
                     break;
                 case WAIT:
-                    s.first = parseE(null);
+                    s.first = parseE(null, false);
                     take(',');
-                    s.second = parseE(null);
+                    s.second = parseE(null, false);
                     break;
                 case EXIT:
                     break;
                 default:
-                    s.first = parseE(null);
+                    s.first = parseE(null, false);
             }
         }
 
@@ -1454,7 +1458,7 @@ public final class LevelUnits {
             Stat last = null;
             for (int i = 0; i < TAPE_ROOM && (i == 0 || accept(ELSIF)); i++) {
                 last = makePart(s, last, P_PLAIN);
-                last.first = parseE(null);
+                last.first = parseE(null, false);
                 take(THEN);
                 parseStatements(last);
             }
@@ -1475,9 +1479,9 @@ public final class LevelUnits {
         private void parseFor(Stat s) {
             s.name = toldInSlot(s, D_FORNAME);
             take(BECOMES);
-            s.first = parseE(null);
+            s.first = parseE(null, false);
             take(TO);
-            s.second = parseE(null);
+            s.second = parseE(null, false);
             take(DO);
             parseStatements(makePart(s, null, P_PLAIN));
             take(END);
@@ -1507,7 +1511,7 @@ public final class LevelUnits {
         }
 
         private void parseTypecase(Stat s) {
-            s.first = parseE(null);
+            s.first = parseE(null, false);
             take(OF);
             Stat last = null;
             for (int i = 0; i < TAPE_ROOM && accept('|'); i++) {
@@ -1549,14 +1553,14 @@ public final class LevelUnits {
                 }
             }
             if (s.kind == BECOMES) {
-                s.first = parseE(s.first);
+                s.first = parseE(s.first, false);
                 return;
             }
             takeOpening('(');
             Op last = null;
             for (int i = 0; i < TAPE_ROOM && (i == 0 ? kind != ')' : accept(',')); i++) {
                 Op p = new Op(O_PARAMETER, 0, NONE, line);
-                p.sub = parseE(null);
+                p.sub = parseE(null, false);
                 if (last == null) {
                     s.parameters = p;
                 } else {
@@ -1589,7 +1593,7 @@ public final class LevelUnits {
                     take(NAME);
                 } else if (kind == '[') {
                     takeOpening('[');
-                    parseInner();
+                    parseE(null, true);
                     takeClosing(']');
                     put('[', 0, null);
                 } else if (accept('^')) {
@@ -1601,17 +1605,12 @@ public final class LevelUnits {
             return first;
         }
 
-        /** An E behind what the list has already. */
-        private void parseInner() {
-            Op behind = tail;
-            Op inner = parseE(null);
-            if (behind != null) {
-                behind.next = inner;
-            }
-        }
-
-        /** A list of its own, or behind a PLACE that is there: operators wait until one comes that binds no tighter. */
-        private Op parseE(Op begun) {
+        /**
+         * A list of its own, behind a PLACE that is there (begun), or behind what the list has already (inner).
+         * Operators wait until one comes that binds no tighter.
+         */
+        private Op parseE(Op begun, boolean inner) {
+            Op outer = tail;
             Op start = new Op(O_START, 0, NONE, line);
             start.next = begun;
             if (begun == null) {
@@ -1638,6 +1637,9 @@ public final class LevelUnits {
                 advance();
             }
             putWaiting(bottom, 0);
+            if (inner && outer != null) {
+                outer.next = start.next;
+            }
             return start.next;
         }
 
@@ -1737,7 +1739,7 @@ public final class LevelUnits {
                     break;
                 case '(':
                     takeOpening('(');
-                    parseInner();
+                    parseE(null, true);
                     takeClosing(')');
                     put('(', 0, null);
                     break;
@@ -1747,7 +1749,7 @@ public final class LevelUnits {
                     advance();
                     takeOpening('(');
                     if (word != NEW) {
-                        parseInner();
+                        parseE(null, true);
                         take(',');
                     }
                     Node t = parseType();
@@ -3353,34 +3355,16 @@ public final class LevelUnits {
 
         // STEPs
 
-        int doSteps(int n) {
-            int done = 0;
-            int ready = countReady();
-            while (done < n && ready > 0) {
-                seed = seed * 1103515245 + 12345;
-                int k = (seed >>> 16) % ready;
-                for (int i = 0; i < made && k >= 0; i++) {
-                    if (isReady(strands[i])) {
-                        if (k == 0) {
-                            doStep(strands[i]);
-                        }
-                        k--;
-                    }
-                }
-                done++;
-                ready = countReady();
+        /** One STEP; false if no thread is READY. */
+        boolean doStep() {
+            Strand k = chosen();
+            if (k == null || k.stat == null) {
+                return false;
             }
-            return done;
-        }
-
-        private void doStep(Strand k) {
             steps++;
             fault = 0;
             forked = null;
-            faultLine = k.stat == null ? 0 : k.stat.line;
-            if (k.stat == null) {
-                return;
-            }
+            faultLine = k.stat.line;
             if (k.state == READY) {
                 act(k, k.stat);
             } else {
@@ -3388,7 +3372,7 @@ public final class LevelUnits {
             }
             if (fault != 0) {
                 endByFault(k);
-                return;
+                return true;
             }
             if (forked != null) {
                 goOn(forked);
@@ -3396,6 +3380,26 @@ public final class LevelUnits {
             if (k.state == READY) {
                 goOn(k);
             }
+            return true;
+        }
+
+        /** The thread whose STEP is next, null if none is READY. */
+        private Strand chosen() {
+            int ready = countReady();
+            if (ready == 0) {
+                return null;
+            }
+            seed = seed * 1103515245 + 12345;
+            int left = (seed >>> 16) % ready;
+            for (int i = 0; i < made; i++) {
+                if (isReady(strands[i])) {
+                    if (left == 0) {
+                        return strands[i];
+                    }
+                    left--;
+                }
+            }
+            return null;
         }
 
         private void stopWaiting(Strand k) {
