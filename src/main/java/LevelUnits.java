@@ -1925,11 +1925,8 @@ public final class LevelUnits {
             }
             Decl d = knownIn(u, use.unitName == NONE ? use.name : use.unitName);
             if (d != null && use.unitName != NONE) {
-                if (d.kind != D_IMPORT) {
-                    fault(7, use.line);
-                    return;
-                }
-                d = d.other == null ? null : toldBy(d.other, use.name);
+                boolean imported = d.kind == D_IMPORT && d.other != null;
+                d = imported ? toldBy(d.other, use.name) : null;
             }
             if (d == null) {
                 fault(6, use.line);
