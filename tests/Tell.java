@@ -31,7 +31,9 @@ final class Tell {
                 int c = at + i < text.length() ? text.charAt(at + i) & 255 : ' ';
                 words[i / 4] = words[i / 4] << 8 | c;
             }
-            x.feed(words[0], words[1], words[2], words[3], words[4]);
+            if (x.feed(words[0], words[1], words[2], words[3], words[4]) == LevelUnits.NONE) {
+                throw new IllegalStateException("the test's text is too long");
+            }
             at += 20;
         }
         x.back(at - text.length());
@@ -41,7 +43,10 @@ final class Tell {
         asked++;
         if (got != want) {
             wrong++;
-            System.out.println(call + " answered " + got + ", due is " + want);
+            if (wrong <= 20) {
+                String told = call.length() > 600 ? call.substring(0, 600) + " .." : call;
+                System.out.println(told + " answered " + got + ", due is " + want);
+            }
         }
     }
 
