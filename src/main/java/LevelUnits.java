@@ -517,11 +517,13 @@ public final class LevelUnits {
         Op first;
         Op second;
         Op parameters;
+        /** The EXCEPTION of a RAISE or HANDLER, those of the SET of a CALL's SIGNATURE. */
         Op use;
         /** The NAME of a FOR, HANDLER, BRANCH; the METHOD of a CALL. */
         Decl name;
-        /** Of a BRANCH; of a CALL that of the PLACE ahead of := . */
+        /** Of a BRANCH; else that of the PLACE ahead of := . */
         Node type;
+        /** How many STATEMENTs it stands in. */
         int level;
 
         Stat(int kind, int line, Stat home, Decl decl) {
@@ -834,38 +836,35 @@ public final class LevelUnits {
             kind = BAD;
         }
 
-        private void advance() {
-            if (at < in.tokens) {
-                at++;
-            }
-            kind = in.kinds[at];
-        }
-
-        private void take(int wanted) {
-            if (kind == wanted) {
-                advance();
-            } else {
-                fail(2);
-            }
-        }
-
+        /** Goes to the next token, if this one is wanted. */
         private boolean accept(int wanted) {
             if (kind != wanted) {
                 return false;
             }
-            at += at < in.tokens ? 1 : 0;
+            if (at < in.tokens) {
+                at++;
+            }
             kind = in.kinds[at];
             return true;
         }
 
-        private int takeName() {
-            if (kind != NAME) {
+        private void advance() {
+            accept(kind);
+        }
+
+        private void take(int wanted) {
+            if (!accept(wanted)) {
                 fail(2);
-                return NONE;
             }
+        }
+
+        private int takeName() {
             int name = in.values[at];
-            advance();
-            return name;
+            if (accept(NAME)) {
+                return name;
+            }
+            fail(2);
+            return NONE;
         }
 
         private void takeEndName(Decl d) {
@@ -882,7 +881,7 @@ public final class LevelUnits {
                 fail(3);
             } else {
                 open[SORT_BRACKETS]++;
-                advance();
+                accept(sign);
             }
         }
 
@@ -3210,7 +3209,7 @@ public final class LevelUnits {
             this.number = number;
         }
 
-        boolean isOver() {
+        boolean hasEnded() {
             return state >= OVER;
         }
 
@@ -3429,7 +3428,7 @@ public final class LevelUnits {
         }
 
         private boolean isOver(int thread) {
-            return thread >= 0 && thread < made && strands[thread].isOver();
+            return thread >= 0 && thread < made && strands[thread].hasEnded();
         }
 
         private int holderOf(int v) {
@@ -4190,7 +4189,7 @@ public final class LevelUnits {
         private int countOver() {
             int over = 0;
             for (int i = 0; i < made; i++) {
-                over += strands[i].isOver() ? 1 : 0;
+                over += strands[i].hasEnded() ? 1 : 0;
             }
             return over;
         }
@@ -4229,7 +4228,7 @@ public final class LevelUnits {
                 case 0:
                     return ready ? READY : k.state;
                 case 1:
-                    if (k.isOver()) {
+                    if (k.hasEnded()) {
                         return k.state == OVER ? 0 : k.faultLine;
                     }
                     return k.stat == null ? 0 : k.stat.line;
