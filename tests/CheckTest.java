@@ -95,6 +95,7 @@ final class CheckTest {
         bad(13, "p();", "p(1, 2);", "n(1);", "i := p();", "w.m();", "w.m(1, 2);", "pr();", "th := FORK p();", "s(1, i);");
         // types are looked at as far as both go
         bad(12, "p(b, 2);", "t(v, 1);");
+        bad(13, "p(1, 1 + TRUE);");
         good("t(v, w, 7);");
     }
 

@@ -55,6 +55,9 @@ final class NamesTest {
         T.fault(5, 2, "INTERFACE A; TYPE x = INTEGER; END A.\nMODULE A; EXCEPTION x; BEGIN END A.");
         T.reading("INTERFACE A; PROCEDURE p (); END A. MODULE A; PROCEDURE p () = BEGIN END p; BEGIN END A.", 0);
         T.fault(5, 3, "INTERFACE A; PROCEDURE p (); END A. MODULE A; PROCEDURE p () = BEGIN END p;\n\nVAR p : INTEGER; BEGIN END A.");
+        T.fault(5, 2, "INTERFACE A; PROCEDURE p (); END A. MODULE A; VAR\np : INTEGER;\nPROCEDURE p () = BEGIN END p; BEGIN END A.");
+        T.fault(5, 2, "INTERFACE p; END p. INTERFACE A; PROCEDURE p (); END A. MODULE A; IMPORT\np; BEGIN END A.");
+        T.fault(5, 2, "INTERFACE A; TYPE p = INTEGER; END A. MODULE A;\nPROCEDURE p () = BEGIN END p; BEGIN END A.");
         T.fault(5, 2, "INTERFACE A; PROCEDURE p ();\nPROCEDURE p (); END A. MODULE A; PROCEDURE p () = BEGIN END p; BEGIN END A.");
         T.reading("MODULE M; VAR M : INTEGER; BEGIN END M.", 0);
         T.fault(5, 1, "INTERFACE A; TYPE t = RECORD a : INTEGER; b, a : INTEGER; END; END A.");

@@ -1879,16 +1879,10 @@ public final class LevelUnits {
             }
         }
 
+        /** Whether the INTERFACE has the name already, and not for a PROCEDURE that is made here. */
         private static boolean isToldByInterface(Decl u, Decl d) {
-            if (u.other == null) {
-                return false;
-            }
-            for (Decl e = u.other.first; e != null; e = e.next) {
-                if (e.name == d.name && e.kind != D_IMPORT && e.kind != D_PROCEDURE) {
-                    return true;
-                }
-            }
-            return false;
+            Decl e = u.other == null ? null : toldBy(u.other, d.name);
+            return e != null && (e.kind != D_PROCEDURE || d.kind != D_PROCEDURE);
         }
 
         /** Whether the list has the name of `d` ahead of it (an OVERRIDE's and another's do not meet). */
@@ -2918,20 +2912,23 @@ public final class LevelUnits {
                 }
             }
             Decl formal = signature == null ? null : signature.items;
-            for (Op p = s.parameters; p != null; p = p.next) {
+            Op p = s.parameters;
+            while (p != null && (formal != null || signature == null)) {
                 Node value = typeOf(p.sub, false);
                 if (formal != null) {
-                    if (s.kind == FORK && formal.kind == D_VARFORMAL) {
-                        fault(14);
-                    }
                     judgeParameter(p.sub, value, formal);
                     formal = formal.next;
-                } else if (signature != null) {
-                    fault(13);
                 }
+                p = p.next;
             }
-            if (formal != null) {
+            if (p != null || formal != null) {
                 fault(13);
+            }
+            formal = signature == null || s.kind != FORK ? null : signature.items;
+            for (; formal != null; formal = formal.next) {
+                if (formal.kind == D_VARFORMAL) {
+                    fault(14);
+                }
             }
         }
 
