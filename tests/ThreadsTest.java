@@ -165,6 +165,7 @@ final class ThreadsTest {
         fails(5, m + "WAIT m, c; END M.");
         fails(5, m + "m := NIL; c := NEW(CONDITION); WAIT m, c; END M.");
         fails(8, m + "c := NEW(CONDITION); WAIT m, c; END M.");
+        fails(2, "MODULE M; VAR m : MUTEX; VAR c : ARRAY [0 .. 1] OF CONDITION; BEGIN\nWAIT m, c[1 DIV 0]; END M.");
         fails(5, m + "SIGNAL c; END M.");
         fails(5, m + "BROADCAST c; END M.");
         fails(5, m + "JOIN NIL; END M.");

@@ -3566,11 +3566,8 @@ public final class LevelUnits {
 
         private void doThreads(Strand k, Stat s) {
             int v = worth(k, s.first);
-            if (s.kind != PUT && v == 0) {
-                fail(F_NIL);
-            }
             int second = s.kind == WAIT ? worth(k, s.second) : v;
-            if (s.kind != PUT && second == 0) {
+            if (s.kind != PUT && (v == 0 || second == 0)) {
                 fail(F_NIL);
             }
             if (fault != 0) {
