@@ -542,8 +542,10 @@ public final class LevelUnits {
         /** The first NAME of a QNAME that has two, else NONE. */
         final int unitName;
         final int line;
+        /** Behind NEW, ISTYPE, NARROW; of what [ or ^ stands behind. */
         Node type;
         Decl decl;
+        /** The OPs of a parameter. */
         Op sub;
         Op next;
 
@@ -1623,7 +1625,7 @@ public final class LevelUnits {
                     parsePrefixes(bottom);
                     parseOperand();
                 }
-                int binds = kind == NOT ? 0 : binding(kind);
+                int binds = binding(kind);
                 if (binds == 0) {
                     break;
                 }
@@ -1686,14 +1688,13 @@ public final class LevelUnits {
             }
         }
 
+        /** How tightly an operator between two operands binds; 0 if it is none. */
         private static int binding(int operator) {
             switch (operator) {
                 case OR:
                     return BINDS_OR;
                 case AND:
                     return BINDS_AND;
-                case NOT:
-                    return BINDS_NOT;
                 case '=':
                 case '#':
                 case '<':
@@ -1708,8 +1709,6 @@ public final class LevelUnits {
                 case DIV:
                 case MOD:
                     return BINDS_PRODUCT;
-                case O_NEGATE:
-                    return BINDS_NEGATE;
                 default:
                     return 0;
             }
@@ -2023,7 +2022,6 @@ public final class LevelUnits {
         /** By shapes: the least TYPE that has it, or NONE. */
         int[] least;
         int globalCells;
-        final Node root;
         final Node integer;
         final Node bool;
         final Node nil;
@@ -2035,7 +2033,6 @@ public final class LevelUnits {
 
         Types(Parser text) {
             tokens = text.tokens();
-            root = text.root;
             integer = text.integer;
             bool = text.bool;
             nil = new Node(T_NIL, NONE, 0, null);
