@@ -3139,7 +3139,7 @@ public final class LevelUnits {
             Stat part = s.home;
             for (int i = 0; i <= DEEPEST && part.home != null; i++) {
                 Stat owner = part.home;
-                if (owner.kind == EXCEPT && part == owner.parts && handlerOf(owner, exception.decl) != null) {
+                if (owner.kind == EXCEPT && part == owner.parts && handlerOf(owner, exception.decl.number) != null) {
                     return;
                 }
                 part = owner.home;
@@ -3157,10 +3157,10 @@ public final class LevelUnits {
         }
     }
 
-    /** The HANDLER of the TRY that names the EXCEPTION, else its ELSE, else null. */
-    private static Stat handlerOf(Stat tried, Decl exception) {
+    /** The HANDLER of the TRY that names the EXCEPTION of the number, else its ELSE, else null. */
+    private static Stat handlerOf(Stat tried, int exception) {
         for (Stat p = tried.parts; p != null; p = p.next) {
-            if (p.kind == P_ELSE || p.use != null && p.use.decl == exception) {
+            if (p.kind == P_ELSE || p.use != null && p.use.decl.number == exception) {
                 return p;
             }
         }
@@ -3860,16 +3860,15 @@ public final class LevelUnits {
         }
 
         private void goToHandler(Strand k, Stat tried) {
-            for (Stat p = tried.parts.next; p != null; p = p.next) {
-                if (p.kind == P_ELSE || p.use.decl.number == k.exception) {
-                    if (p.name != null) {
-                        k.setSlot(p.name.offset, k.amount);
-                    }
-                    k.leaving = 0;
-                    k.goInto(p);
-                    return;
-                }
+            Stat p = handlerOf(tried, k.exception);
+            if (p == null) {
+                return;
             }
+            if (p.name != null) {
+                k.setSlot(p.name.offset, k.amount);
+            }
+            k.leaving = 0;
+            k.goInto(p);
         }
 
         private void leaveBody(Strand k) {
