@@ -544,7 +544,16 @@ final class CallsEdgesTest {
                 T.due("inside(" + n + ", 0)", x.inside(n, 0), 0);
             }
         }
+        // each thing's own CELLS alone, between those of others
+        x = T.running("MODULE M; VAR r : REF ARRAY [1 .. 3] OF INTEGER; BEGIN FOR i := 1 TO 5 DO r := NEW(REF ARRAY [1 .. 3] OF INTEGER); FOR k := 1 TO 3 DO r^[k] := 10 * i + k; END; END; END M.", 1);
+        x.run(2000);
+        for (int v = 1; v <= 5; v++) {
+            for (int i = -2; i < 12; i++) {
+                T.due("inside(" + v + ", " + i + ")", x.inside(v, i), i >= 0 && i < 3 ? 10 * v + i + 1 : 0);
+            }
+        }
         T.due("inside(0, 0)", x.inside(0, 0), 0);
+        T.due("inside(6, 0)", x.inside(6, 0), 0);
         T.due("inside(0, 1)", x.inside(0, 1), 0);
         T.due("inside(7, 0)", x.inside(7, 0), 0);
         T.due("inside(2, -1)", x.inside(2, -1), 0);

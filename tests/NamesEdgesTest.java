@@ -299,6 +299,14 @@ final class NamesEdgesTest {
         T.fault(9, 3, "MODULE M; VAR r : ROOT; BEGIN LOOP\n\nr :=\nNEW(REF [1 .. 0]); END; END M.");
         T.fault(9, 4, "MODULE M; VAR r : ROOT; BEGIN\nr :=\nNEW(REF RECORD\nf :\n[1 .. 0]; END); END M.");
         T.fault(9, 2, "MODULE M; VAR r : ROOT; BEGIN\nTYPECASE r OF\n|\nREF [1 .. 0] (x) => END; END M.");
+        // behind what is within it the outer one goes on
+        T.fault(9, 2, "MODULE M;\nTYPE t = PROCEDURE (a : OBJECT METHODS\nm (); END; b :\n[1 .. 0]); BEGIN END M.");
+        T.fault(9, 2, "MODULE M; TYPE s = OBJECT METHODS m (); END; PROCEDURE q (x : s) = BEGIN END q;\nTYPE t = PROCEDURE (a : s OBJECT OVERRIDES\nm := q; END; b :\n[1 .. 0]); BEGIN END M.");
+        T.fault(9, 3, "MODULE M;\nTYPE t = RECORD\nx : PROCEDURE (a : RECORD\ny : INTEGER;\nz : BOOLEAN; END; b :\n[1 .. 0]); END; BEGIN END M.");
+        T.fault(9, 2, "MODULE M; BEGIN\nIF TRUE THEN\nPUT 1;\nELSIF NIL = NEW(REF [1 .. 0]) THEN END; END M.");
+        T.fault(9, 2, "MODULE M; BEGIN\nTYPECASE NIL OF | ROOT (y) =>\nPUT 1;\n| REF [1 .. 0] (z) => END; END M.");
+        T.fault(9, 3, "MODULE M; VAR b : BOOLEAN; BEGIN LOOP\nPUT 1;\nb := NIL = NEW(REF [1 .. 0]); END; END M.");
+        T.fault(9, 2, "MODULE M;\nPROCEDURE p (a : RECORD\ny : INTEGER; END; b :\n[1 .. 0]) = VAR l : INTEGER; BEGIN END p; BEGIN END M.");
         T.fault(13, 2, "MODULE M; PROCEDURE p () = BEGIN END p; BEGIN\np\n(\n1); END M.");
         T.fault(14, 3, "MODULE M; BEGIN IF TRUE THEN\n\nEXIT\n; END; END M.");
         T.fault(15, 3, "MODULE M; EXCEPTION e; PROCEDURE p () = BEGIN\nTRY\nRAISE\ne(1);\nFINALLY END; END p; BEGIN END M.");

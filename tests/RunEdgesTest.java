@@ -7,6 +7,7 @@ final class RunEdgesTest {
     public static void main(String[] args) {
         references();
         firstValues();
+        firstOfFull();
         hiddenFields();
         steps();
         overflow();
@@ -15,13 +16,17 @@ final class RunEdgesTest {
         ranges();
         nil();
         objects();
+        truth();
         leftToRight();
         placeFirst();
         callOrder();
+        byValue();
+        copiesAtTheEnds();
         callCells();
         returned();
         dispatch();
         forked();
+        forsOfThreads();
         fors();
         ifs();
         typecases();
@@ -30,6 +35,7 @@ final class RunEdgesTest {
         nestedSlots();
         locks();
         rows();
+        rowOrder();
         joins();
         outputs();
         roomOfThings();
@@ -109,6 +115,40 @@ final class RunEdgesTest {
                 puts(told + " PROCEDURE g () = VAR a, b, c, d, e : INTEGER; BEGIN a := 99; b := 99; c := 99; d := 99; e := 99; END g; PROCEDURE h () = VAR w : t; VAR k : r; BEGIN PUT w; PUT k.y[1]; PUT k.y[2]; PUT k.z; END h;",
                         "g(); h();", first[i], first[i], first[i], first[i]);
             }
+        }
+    }
+
+    /** Of as many CELLS as there can be, too; and of a run that is begun anew. */
+    private static void firstOfFull() {
+        String a = "TYPE a = ARRAY [1 .. 1000] OF RECORD x, y : [7 .. 8]; END; TYPE b = RECORD u : ARRAY [1 .. 999] OF RECORD x, y : [- 8 .. - 7]; END; v, w : [3 .. 4]; END; VAR n, z : a; VAR r : REF b; VAR o : OBJECT m : a; i : INTEGER; END;"
+                + " PROCEDURE p () = VAR l : a; BEGIN PUT l[1].x; PUT l[1000].y; l[1].x := 8; END p;";
+        LevelUnits x = done(a, "r := NEW(REF b); o := NEW(OBJECT m : a; i : INTEGER; END); p(); r^.v := 4; o.i := 5; o.m[1].x := 8; r := NEW(REF b); PUT r^.v; o := NEW(OBJECT m : a; i : INTEGER; END); PUT o.i; PUT o.m[1].x; p();");
+        for (int round = 0; round < 2; round++) {
+            T.output(x, 7, 7, 3, 0, 7, 7, 7);
+            cells(x, 0, 7, 7);
+            cells(x, 1999, 7, 7);
+            cells(x, 3999, 7, 3, 4, 0);
+            T.due("inside(1, 0)", x.inside(1, 0), -7);
+            T.due("inside(1, 1997)", x.inside(1, 1997), -7);
+            T.due("inside(1, 1998)", x.inside(1, 1998), 4);
+            T.due("inside(1, 1999)", x.inside(1, 1999), 3);
+            T.due("inside(4, 2000)", x.inside(4, 2000), 0);
+            T.due("inside(4, 1999)", x.inside(4, 1999), 7);
+            x.begin(3);
+            x.run(2000);
+        }
+        // CELLS that another run has filled
+        x = T.running("MODULE M; VAR r : REF RECORD x, y : INTEGER; END; VAR t : THREAD; VAR k : INTEGER; PROCEDURE p () = VAR l : INTEGER; BEGIN PUT l; l := 9; END p; BEGIN r := NEW(REF RECORD x, y : INTEGER; END); r^.x := 5; r^.y := 6; t := FORK p(); JOIN t; k := 7; END M.", 1);
+        for (int round = 0; round < 3; round++) {
+            x.run(1);
+            T.due("inside(1, 0)", x.inside(1, 0), 0);
+            T.due("inside(1, 1)", x.inside(1, 1), 0);
+            T.due("cell(2)", x.cell(2), 0);
+            x.run(2000);
+            T.due("inside(1, 1)", x.inside(1, 1), 6);
+            T.due("cell(2)", x.cell(2), 7);
+            T.output(x, 0);
+            x.begin(round);
         }
     }
 
@@ -311,6 +351,36 @@ final class RunEdgesTest {
         fails(6, 5, o, "va := NEW(b);\nvd := va;");
     }
 
+    private static void truth() {
+        String[] relations = {"=", "#", "<", "<=", ">", ">="};
+        int[] numbers = {-2147483647, -1, 0, 1, 2, 2147483647};
+        for (int a : numbers) {
+            for (int b : numbers) {
+                int[] due = {a == b ? 1 : 0, a != b ? 1 : 0, a < b ? 1 : 0, a <= b ? 1 : 0, a > b ? 1 : 0, a >= b ? 1 : 0};
+                StringBuilder text = new StringBuilder();
+                for (int i = 0; i < relations.length; i++) {
+                    text.append("v[").append(i).append("] := ").append(a).append(' ').append(relations[i]).append(' ').append(b).append("; ");
+                }
+                cells(done("VAR v : ARRAY [0 .. 5] OF BOOLEAN;", text.toString()), 0, due);
+            }
+        }
+        String[] bools = {"FALSE", "TRUE"};
+        for (int a = 0; a < 2; a++) {
+            for (int b = 0; b < 2; b++) {
+                String pair = "v[#] := " + bools[a] + " @ " + bools[b] + "; ";
+                LevelUnits x = done("VAR v : ARRAY [0 .. 4] OF BOOLEAN;", pair.replace("#", "0").replace("@", "AND") + pair.replace("#", "1").replace("@", "OR") + pair.replace("#", "2").replace("@", "=")
+                        + pair.replace("#", "3").replace("@", "#") + "v[4] := NOT " + bools[a] + ";");
+                cells(x, 0, a & b, a | b, a == b ? 1 : 0, a != b ? 1 : 0, 1 - a);
+            }
+        }
+        // references; OR binds least, then AND, then NOT, then relations, sums, products, -
+        LevelUnits x = done("VAR v : ARRAY [0 .. 9] OF BOOLEAN; VAR o, p : ROOT; VAR q : PROCEDURE (); PROCEDURE a () = BEGIN END a; PROCEDURE b () = BEGIN END b;",
+                "o := NEW(ROOT); p := NEW(ROOT); v[0] := o = p; v[1] := o # p; v[2] := o = o; v[3] := p = NIL; v[4] := NIL = NIL; q := b; v[5] := q = a; v[6] := q = b; v[7] := TRUE OR TRUE AND FALSE; v[8] := NOT FALSE AND FALSE; v[9] := NOT 1 = 2;");
+        cells(x, 0, 0, 1, 1, 0, 1, 0, 1, 1, 0, 1);
+        puts("", "PUT 1 + 2 * 3; PUT 10 - 4 - 3; PUT 2 * 7 DIV 3; PUT 7 DIV 2 * 3; PUT - 7 DIV 2; PUT 2 - - 3; PUT - 2 * 3 + 10; PUT 17 MOD 7 MOD 2;", 7, 3, 4, 9, -4, 5, 4, 1);
+        puts("", "PUT (1 + 2) * 3; PUT 10 - (4 - 3); PUT 2 * (7 DIV 3); PUT - (7 DIV 2); PUT - (2 * 3 + 10);", 9, 9, 4, -3, -16);
+    }
+
     /** "E's are worked out from the left to the right, all of them (of AND, OR, too)." */
     private static void leftToRight() {
         String a = "VAR a : ARRAY [0 .. 1] OF INTEGER; VAR f : REF INTEGER; VAR b : BOOLEAN; VAR i : INTEGER;";
@@ -387,6 +457,34 @@ final class RunEdgesTest {
         puts("TYPE o = OBJECT x : INTEGER; END; VAR w : o; PROCEDURE s (VAR x : INTEGER) = BEGIN w := NEW(o); x := 7; END s;", "w := NEW(o); s(w.x); PUT w.x;", 0);
         // the place ahead of := , too
         puts("VAR a : ARRAY [0 .. 1] OF INTEGER; VAR i : INTEGER; PROCEDURE s () : INTEGER = BEGIN i := 1; RETURN 7; END s;", "a[i] := s(); PUT a[0]; PUT a[1];", 7, 0);
+    }
+
+    /** A parameter without VAR is a copy, of whatever row of CELLS it comes from. */
+    private static void byValue() {
+        String v = "TYPE t = RECORD a : ARRAY [1 .. 2] OF INTEGER; b : BOOLEAN; END; VAR g, h : t; VAR f : REF t; VAR o : OBJECT x : INTEGER; y : t; END; VAR k : ARRAY [0 .. 1] OF t;"
+                + " PROCEDURE p (m : INTEGER; x : t; n : INTEGER) = BEGIN PUT x.a[1]; PUT x.a[2]; PUT m; PUT n; x.a[1] := 99; x.b := TRUE; END p; PROCEDURE q (VAR z : t) = VAR l : t; BEGIN p(1, z, 2); l := z; l.a[2] := 7; p(3, l, 4); z.a[1] := 8; END q;"
+                + " PROCEDURE r (x, y : t) = BEGIN g.a[1] := 50; PUT x.a[1]; PUT y.a[1]; END r;";
+        String set = "g.a[1] := 5; g.a[2] := 6; ";
+        puts(v, set + "p(10, g, 20); PUT g.a[1];", 5, 6, 10, 20, 5);
+        puts(v, set + "f := NEW(REF t); f^ := g; p(10, f^, 20); PUT f^.a[1];", 5, 6, 10, 20, 5);
+        puts(v, set + "o := NEW(OBJECT x : INTEGER; y : t; END); o.y := g; p(10, o.y, 20); PUT o.y.a[1];", 5, 6, 10, 20, 5);
+        puts(v, set + "k[1] := g; p(10, k[1], 20); p(1, k[0], 2);", 5, 6, 10, 20, 0, 0, 1, 2);
+        puts(v, set + "q(g); PUT g.a[1]; PUT g.a[2];", 5, 6, 1, 2, 5, 7, 3, 4, 8, 6);
+        puts(v, set + "h := g; h.a[1] := 55; r(g, h); PUT g.a[1];", 5, 55, 50);
+    }
+
+    /** Copies from and to the last CELLS that there can be. */
+    private static void copiesAtTheEnds() {
+        String a = "TYPE a = ARRAY [1 .. 1000] OF RECORD x, y : INTEGER; END; TYPE b = ARRAY [1 .. 998] OF INTEGER; VAR n : REF b; VAR r : REF a; VAR u, v : a; VAR w : b;"
+                + " PROCEDURE p (k : b) = VAR l, m, o, q : INTEGER; VAR d : b; BEGIN d[1] := 3; d[998] := 4; k := d; PUT k[1]; PUT k[998]; k[1] := 5; d := k; PUT d[1]; PUT d[998]; d[998] := 7; w := d; PUT w[998]; w[998] := 8; d := w; PUT d[998]; END p;";
+        LevelUnits x = done(a, "w[1] := 1; w[998] := 2; n := NEW(REF b); n^ := w; IF NIL = NEW(OBJECT x, y, z, k : INTEGER; END) THEN END; FOR i := 1 TO 9 DO r := NEW(REF a); END; n := NEW(REF b); n^[998] := 6; w := n^; PUT w[998]; w[998] := 9; n^ := w; PUT n^[998]; p(w);");
+        T.due("count(4)", x.count(4), 5000);
+        T.due("count(10)", x.count(10), 20000);
+        T.due("state", x.thread(0, 0), 4);
+        T.output(x, 6, 9, 3, 4, 5, 4, 7, 8);
+        T.due("cell(4999)", x.cell(4999), 8);
+        T.due("inside(1, 997)", x.inside(1, 997), 2);
+        T.due("inside(12, 997)", x.inside(12, 997), 9);
     }
 
     /** "LOCALS and FORMALs of calls that stand open take CELLS, a FORMAL with VAR one; NAMEs of FOR, HANDLERS, BRANCHES none". */
@@ -468,6 +566,17 @@ final class RunEdgesTest {
         failed(x, 0, 4, 6, "FORK p(3)");
         T.due("count(7)", x.count(7), 1);
         cells(x, 0, 0);
+    }
+
+    /** FORs of threads go on where they were, whatever the others do. */
+    private static void forsOfThreads() {
+        for (int seed = 0; seed < 8; seed++) {
+            LevelUnits x = T.running("MODULE M; VAR t, u : THREAD; VAR n : INTEGER; PROCEDURE p (a : INTEGER) = BEGIN FOR k := a TO a + 4 DO n := n + k; END; END p; BEGIN t := FORK p(10); u := FORK p(100); FOR k := 1000 TO 1004 DO n := n + k; END; JOIN t; JOIN u; PUT n; END M.", seed);
+            x.run(2000);
+            T.output(x, 5 * 1110 + 30);
+            // three FORs of 11, two FORKs, two JOINs (one more STEP each if it WAITed), a PUT
+            T.due("count(6)", x.count(6) >= 38 && x.count(6) <= 40 ? 1 : 0, 1);
+        }
     }
 
     /** "FOR: both E's at first; the NAME is an INTEGER that goes up by 1 till it is the second one." */
@@ -681,6 +790,36 @@ final class RunEdgesTest {
                 T.due("thing(3, 2)", x.thing(3, 2), 0);
             }
         }
+    }
+
+    /** The row is in the order of the WAITs, not of the threads; thread 0 stands in it as any other. */
+    private static void rowOrder() {
+        String w = "MODULE M; VAR m : MUTEX; VAR c : CONDITION; VAR t : THREAD; VAR n, go : INTEGER; PROCEDURE p (i : INTEGER) = BEGIN WHILE go # i DO END; LOCK m DO go := 0; WAIT m, c; PUT i; n := n - 1; END; END p;"
+                + " PROCEDURE s () = BEGIN WHILE go # 9 DO END; LOCK m DO END; WHILE n > 0 DO go := n; SIGNAL c; WHILE n = go DO END; END; END s; BEGIN m := NEW(MUTEX); c := NEW(CONDITION); FOR i := 1 TO 3 DO t := FORK p(i); END; t := FORK s();";
+        int[][] orders = {{1, 2, 3}, {3, 2, 1}, {2, 3, 1}, {3, 1, 2}, {2, 1, 3}};
+        for (int[] o : orders) {
+            StringBuilder b = new StringBuilder(w);
+            for (int i = 0; i < 3; i++) {
+                b.append(" go := ").append(o[i]).append("; WHILE go # 0 DO END; LOCK m DO END;");
+            }
+            b.append(" LOCK m DO n := 4; go := 9; WAIT m, c; PUT 0; n := n - 1; END; END M.");
+            for (int seed = 1; seed < 4; seed++) {
+                LevelUnits x = T.running(b.toString(), seed);
+                x.run(2000);
+                x.run(2000);
+                T.output(x, o[0], o[1], o[2], 0);
+                T.due("count(5)", x.count(5), 2);
+            }
+        }
+        // BROADCAST: all of them, thread 0, too
+        LevelUnits x = T.running("MODULE M; VAR m : MUTEX; VAR c : CONDITION; VAR t : THREAD; VAR n : INTEGER; PROCEDURE p () = BEGIN LOCK m DO n := n + 1; WAIT m, c; END; PUT 1; END p; PROCEDURE b () = BEGIN WHILE n < 3 DO END; LOCK m DO BROADCAST c; LOOP END; END; END b;"
+                + " BEGIN m := NEW(MUTEX); c := NEW(CONDITION); t := FORK p(); t := FORK p(); t := FORK b(); LOCK m DO n := n + 1; WAIT m, c; END; END M.", 1);
+        x.run(400);
+        for (int t = 0; t < 3; t++) {
+            T.due("thread(" + t + ", 0)", x.thread(t, 0), 1);
+            T.due("thread(" + t + ", 3)", x.thread(t, 3), 1);
+        }
+        T.due("thing(2, 2)", x.thing(2, 2), 0);
     }
 
     /** "JOIN: it WAITS, and is READY again when that thread is over; then, as a STEP, it goes on (at once if it is over)." */

@@ -369,6 +369,16 @@ final class TextEdgesTest {
         told(0, "PROCEDURE p (a : " + times(19, "PROCEDURE (a : ") + "INTEGER" + times(19, ")") + ") = BEGIN END p;");
         told(3, "PROCEDURE p (a : " + times(20, "PROCEDURE (a : ") + "INTEGER" + times(20, ")") + ") = BEGIN END p;");
         told(3, "PROCEDURE p (a : " + times(19, "PROCEDURE (a : ") + "[0 .. 1]" + times(19, ")") + ") = BEGIN END p;");
+        // where one must stand, it must
+        for (String s : new String[] {"b := ISTYPE NIL, ROOT);", "o := NARROW NIL, ROOT);", "o := NEW ROOT);", "RAISE e 1);", "h := FORK p 1);", "TRY EXCEPT | e v) => END;", "TYPECASE o OF | ROOT z) => END;", "p 1);"}) {
+            done(2, s);
+        }
+        told(2, "TYPE t = 0 .. 1];");
+        told(2, "TYPE t = ARRAY 0 .. 1] OF INTEGER;");
+        told(2, "TYPE t = PROCEDURE );");
+        told(2, "TYPE t = PROCEDURE a : INTEGER);");
+        told(2, "TYPE t = OBJECT METHODS m a : INTEGER); END;");
+        told(2, "PROCEDURE p a : INTEGER) = BEGIN END p;");
         // it is those that are open that count
         done(0, "x := (1)" + times(30, " + (a[1])") + ";" + times(30, " p((2));"));
         done(0, "TRY" + times(25, " TRY EXCEPT | e(v) => x := (1); END;") + " EXCEPT END;" + times(25, " TYPECASE o OF | ROOT (z) => END;"));

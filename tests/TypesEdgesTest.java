@@ -293,6 +293,17 @@ final class TypesEdgesTest {
                 "TYPE a = RECORD x : OBJECT METHODS m (y : a) : REF a; END; END;", "TYPE a = ARRAY [0 .. 1] OF REF ARRAY [0 .. 1] OF a;", "TYPE a = ARRAY [0 .. 1] OF PROCEDURE (VAR v : a);",
                 "TYPE a = PROCEDURE () : a;", "TYPE a = RECORD x, y : b; END; TYPE b = RECORD x, y : c; END; TYPE c = RECORD END;", "TYPE a = OBJECT x : a; END; TYPE b = RECORD x : a; END;");
         fault(8, 2, "TYPE a = RECORD x : REF a; y : b; END; TYPE b = RECORD z : a; END;");
+        fault(8, 2, "TYPE a = RECORD x : a; y : b; END; TYPE b = INTEGER;");
+        // at the first one of the ring, whatever stands ahead of it or leads to it
+        fault(8, 3, "TYPE z = INTEGER;\nTYPE a = RECORD x : b; END;\nTYPE b = RECORD x : a; END;");
+        fault(8, 3, "TYPE z = RECORD x : a; END;\nTYPE a = RECORD x : b; END;\nTYPE b = RECORD x : a; END;");
+        fault(8, 2, "TYPE a = RECORD x : c; y : b; z : b; v : b; END;\nTYPE b = INTEGER;\nTYPE c = RECORD x : a; END;");
+        // what is behind a REF, in a LEVEL or SIGNATURE, or in another DECLARATION, is not held
+        for (String s : new String[] {"REF a", "REF RECORD y : a; END", "OBJECT y : a; END", "ROOT OBJECT y : a; END", "s OBJECT y : a; METHODS m (z : a); END", "PROCEDURE (y : a)", "PROCEDURE () : REF a"}) {
+            fault(9, 2, "TYPE a = RECORD x : " + s + "; n : ARRAY [1 .. 0] OF INTEGER; END; TYPE s = OBJECT END;");
+            fault(8, 2, "TYPE a = RECORD x : " + s + "; n : ARRAY [1 .. 1] OF a; END; TYPE s = OBJECT END;");
+        }
+        fault(9, 2, "TYPE a = ARRAY [1 .. 0] OF INTEGER; VAR v : a; PROCEDURE p (x : a) = VAR l : a; BEGIN END p; TYPE o <: ROOT; REVEAL o = OBJECT f : a; END;");
     }
 
     /** "an OBJECT type that comes to itself by what is above it (at each TYPE =, REVEAL = that is in the ring)". */

@@ -2540,9 +2540,6 @@ public final class LevelUnits {
             } else if (isInRing(t.own)) {
                 fault(8, d.line);
             }
-            if (d.kind == D_HINT && !isObject(d.bound.real)) {
-                fault(10, d.line);
-            }
         }
 
         /** A PROCEDURE that an INTERFACE tells must be made, with an alike SIGNATURE. */
