@@ -10,6 +10,7 @@ final class RunEdgesTest {
         firstOfFull();
         hiddenFields();
         steps();
+        readyOnes();
         overflow();
         divisors();
         indexes();
@@ -213,6 +214,41 @@ final class RunEdgesTest {
         x.run(1);
         T.due("thread(0, 1)", x.thread(0, 1), 2);
         T.due("run(5)", x.run(5), 1);
+    }
+
+    /** "A STEP: of the READY threads, by their numbers, the k-th one (from 0), k being (S >>> 16) % how many there are": not those that WAIT, nor those that are over. */
+    private static void readyOnes() {
+        String text = "MODULE M; VAR m : MUTEX; VAR t : THREAD; PROCEDURE p () = BEGIN LOCK m DO END; END p; PROCEDURE q () = BEGIN LOOP PUT 3; END; END q; PROCEDURE r () = BEGIN PUT 2; END r;"
+                + " BEGIN m := NEW(MUTEX); LOCK m DO t := FORK p(); t := FORK r(); t := FORK q(); LOOP PUT 0; END; END; END M.";
+        for (int seed : new int[] {0, 1, 2, 3, -7, MIN, MAX, 987654321}) {
+            LevelUnits x = T.running(text, seed);
+            int s = seed;
+            int[] acts = new int[4];
+            int outputs = 0;
+            for (int step = 0; step < 150; step++) {
+                boolean[] ready = {true, acts[0] >= 3 && acts[1] == 0, acts[0] >= 4 && acts[2] == 0, acts[0] >= 5};
+                int many = 0;
+                for (boolean one : ready) {
+                    many += one ? 1 : 0;
+                }
+                s = s * 1103515245 + 12345;
+                int k = (s >>> 16) % many;
+                int t = 0;
+                while (!ready[t] || k > 0) {
+                    k -= ready[t] ? 1 : 0;
+                    t++;
+                }
+                acts[t]++;
+                T.due("run(1)", x.run(1), 1);
+                boolean puts = t == 0 ? acts[0] > 6 && acts[0] % 2 == 1 : t == 2 || t == 3 && acts[3] % 2 == 0;
+                if (puts) {
+                    T.due("output(" + outputs + ") of seed " + seed, x.output(outputs), t);
+                    outputs++;
+                }
+                T.due("count(12) of seed " + seed, x.count(12), outputs);
+                T.due("thread(1, 0)", x.thread(1, 0), acts[0] < 3 ? -1 : acts[1]);
+            }
+        }
     }
 
     /** "1 OVERFLOW (+ - * and - of one; -2147483648 DIV -1)". */
