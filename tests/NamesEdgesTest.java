@@ -262,6 +262,8 @@ final class NamesEdgesTest {
         T.fault(5, 3, "MODULE M; PROCEDURE p\n(a,\na : INTEGER) = BEGIN END p; BEGIN END M.");
         T.fault(5, 2, "MODULE M; BEGIN END M. MODULE\nM\n; BEGIN END M.");
         T.fault(6, 3, "MODULE M; IMPORT\n\nA\n; BEGIN END M.");
+        T.fault(5, 3, "INTERFACE A;\nIMPORT\nA; END A.");
+        T.fault(5, 4, A + "MODULE M;\nIMPORT A,\nA; BEGIN END M.");
         T.fault(6, 3, "MODULE M; VAR x :\n\nt\n; BEGIN END M.");
         T.fault(6, 3, A + "MODULE M; IMPORT A; VAR x :\nA\n.\nu; BEGIN END M.");
         T.fault(7, 3, A + "MODULE M; IMPORT A; VAR x :\nA\n.\nv; BEGIN END M.");
@@ -288,6 +290,13 @@ final class NamesEdgesTest {
         T.fault(9, 3, "MODULE M;\nTYPE t = OBJECT METHODS\nm\n(a :\n[1 .. 0]); END; BEGIN END M.");
         T.fault(9, 3, "MODULE M;\nTYPE t = OBJECT\na :\n[1 .. 0]; END; BEGIN END M.");
         T.fault(9, 2, "MODULE M;\nTYPE t = PROCEDURE (a : RECORD\na : INTEGER; END; b :\n[1 .. 0]); BEGIN END M.");
+        T.fault(8, 2, "MODULE M;\nTYPE\na\n=\na; BEGIN END M.");
+        T.fault(8, 2, "MODULE M;\nTYPE\na\n= RECORD\nx : a; END; BEGIN END M.");
+        T.fault(8, 2, "MODULE M;\nTYPE\na\n=\na OBJECT END; BEGIN END M.");
+        T.fault(8, 2, "MODULE M;\nREVEAL\no\n=\no OBJECT END; TYPE o <: ROOT; BEGIN END M.");
+        T.fault(10, 2, "MODULE M;\nTYPE\no\n<: ROOT; BEGIN END M.");
+        T.fault(10, 2, "MODULE M; TYPE i = INTEGER;\nREVEAL\ni\n=\nOBJECT END; BEGIN END M.");
+        T.fault(11, 2, "INTERFACE A;\nPROCEDURE\np (); END A.");
         T.fault(10, 3, "MODULE M; TYPE i = INTEGER;\nVAR v : RECORD\nf : REF\ni OBJECT END; END; BEGIN END M.");
         T.fault(10, 2, "MODULE M; TYPE o <: ROOT;\nREVEAL\no\n<: INTEGER; REVEAL o = OBJECT END; BEGIN END M.");
         T.fault(11, 4, "MODULE M; TYPE t = OBJECT END;\nTYPE u = t OBJECT\nOVERRIDES\nm\n:= p; END; PROCEDURE p (s : t) = BEGIN END p; BEGIN END M.");

@@ -29,6 +29,7 @@ final class RunEdgesTest {
         forked();
         forsOfThreads();
         fors();
+        exits();
         ifs();
         typecases();
         handlers();
@@ -137,6 +138,22 @@ final class RunEdgesTest {
             T.due("inside(4, 1999)", x.inside(4, 1999), 7);
             x.begin(3);
             x.run(2000);
+        }
+        // CELLS that another program has filled
+        x = T.running("MODULE M; TYPE a = ARRAY [1 .. 9] OF INTEGER; VAR v : a; VAR r : REF a; BEGIN FOR i := 1 TO 9 DO v[i] := i; END; r := NEW(REF a); r^ := v; END M.", 1);
+        x.run(2000);
+        T.due("inside(1, 8)", x.inside(1, 8), 9);
+        Tell.feed(x, "MODULE M; VAR v : ARRAY [1 .. 9] OF INTEGER; VAR m : MUTEX; VAR c : CONDITION; VAR r : REF RECORD a, b : INTEGER; END; VAR o : ROOT; BEGIN m := NEW(MUTEX); c := NEW(CONDITION); r := NEW(REF RECORD a, b : INTEGER; END); o := NEW(OBJECT x, y : INTEGER; END); END M.");
+        T.due("read", x.read(), 0);
+        x.begin(1);
+        for (int i = 0; i < 9; i++) {
+            T.due("cell(" + i + ")", x.cell(i), 0);
+        }
+        x.run(2000);
+        T.due("count(10)", x.count(10), 6);
+        for (int v = 1; v <= 4; v++) {
+            T.due("inside(" + v + ", 0)", x.inside(v, 0), 0);
+            T.due("inside(" + v + ", 1)", x.inside(v, 1), 0);
         }
         // CELLS that another run has filled
         x = T.running("MODULE M; VAR r : REF RECORD x, y : INTEGER; END; VAR t : THREAD; VAR k : INTEGER; PROCEDURE p () = VAR l : INTEGER; BEGIN PUT l; l := 9; END p; BEGIN r := NEW(REF RECORD x, y : INTEGER; END); r^.x := 5; r^.y := 6; t := FORK p(); JOIN t; k := 7; END M.", 1);
@@ -632,6 +649,16 @@ final class RunEdgesTest {
         puts("VAR n : INTEGER;", "LOOP n := n + 1; FOR k := n TO 2 DO PUT k; END; IF n = 3 THEN EXIT; END; END;", 1, 2, 2);
     }
 
+    /** EXIT leaves the innermost WHILE, LOOP or FOR. */
+    private static void exits() {
+        for (String loop : new String[] {"LOOP", "WHILE TRUE DO", "FOR k := 1 TO 9 DO"}) {
+            for (String outer : new String[] {"LOOP", "WHILE TRUE DO", "FOR k := 1 TO 9 DO"}) {
+                puts("", outer + " PUT 1; " + loop + " PUT 2; IF TRUE THEN EXIT; END; PUT 8; END; PUT 3; EXIT; END; PUT 4;", 1, 2, 3, 4);
+                puts("", outer + " TRY " + loop + " TRY EXIT; FINALLY PUT 1; END; END; FINALLY PUT 2; END; TRY EXIT; EXCEPT ELSE PUT 8; END; END; PUT 4;", 1, 2, 4);
+            }
+        }
+    }
+
     private static void ifs() {
         String b = "VAR i : INTEGER;";
         for (int i = 0; i < 5; i++) {
@@ -1045,6 +1072,14 @@ final class RunEdgesTest {
         T.due("count(5)", x.count(5), 3);
         T.due("count(8)", x.count(8), 1);
         T.due("run(3)", x.run(3), 0);
+        // over at its end, whatever it did before: no line is told
+        x = done("EXCEPTION e; VAR t : THREAD; PROCEDURE p () = BEGIN LOOP RETURN; END; END p; PROCEDURE q () = BEGIN TRY RAISE e(1); EXCEPT | e(v) => END; END q;", "t := FORK p(); t := FORK q(); JOIN t; LOOP EXIT; END;");
+        for (int t = 0; t < 3; t++) {
+            T.due("thread(" + t + ", 0)", x.thread(t, 0), 4);
+            for (int what = 1; what <= 5; what++) {
+                T.due("thread(" + t + ", " + what + ")", x.thread(t, what), what == 4 ? -1 : 0);
+            }
+        }
         // all FAILED is ENDED, too
         x = done("", "PUT 1 DIV 0;");
         T.due("count(5)", x.count(5), 2);
