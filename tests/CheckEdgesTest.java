@@ -333,6 +333,9 @@ final class CheckEdgesTest {
         bad(14, "b := w.m;", "b := w.m = w3;", "b := w.l = 1;", "IF w.m THEN END;", "LOCK w.l DO END;", "i := - w.m;", "a[w.l] := 1;", "p(w.l);", "w.m := TRUE;", "p := TRUE;", "n := n;", "w.l := w.m;");
         bad(14, "FOR k := 1 TO 2 DO k := TRUE; END;", "FOR k := 1 TO 2 DO k := w.l; END;", "p := p(1);", "TYPECASE w.l OF | ROOT (x) => END;", "b := ISTYPE(w.l, o3);");
         bad(12, "b := w.m + b;", "w.m := b + 1;", "p(w.l + b);", "b := p(w.l);", "TYPECASE w.l OF | INTEGER (x) => END;", "b := ISTYPE(w.l, INTEGER);");
+        // an operator has its type, whatever its operands have
+        bad(12, "b := w.m + 1;", "b := - w.m;", "i := w.m < 1;", "i := NOT w.m;", "i := w.m AND b;", "i := w.m = w3;");
+        bad(14, "i := w.m + 1;", "b := w.m < 1;", "b := NOT w.m;", "b := w.m OR b;");
         // the RESULT is there, too, when a parameter is wrong, or there are too few
         bad(12, "b := p();", "b := p(1, 2);", "b := p(w.m);");
         bad(13, "i := p();", "i := p(1, 2);", "i := p(1, b + 1);", "p(w.l, 1);");
